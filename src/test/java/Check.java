@@ -43,6 +43,13 @@ final class Check {
         }
     }
 
+    static void sameText(String what, String due, String got) {
+        looked++;
+        if (!got.equals(due)) {
+            complain(what + " answered " + got + ", due is " + due);
+        }
+    }
+
     static void isTrue(String what, boolean is) {
         same(what, 1, is ? 1 : 0);
     }
