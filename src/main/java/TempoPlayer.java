@@ -34,7 +34,7 @@ public final class TempoPlayer {
     private static final int LEAST_TEMPO = 200;
     private static final int MOST_TEMPO = 4000;
     private static final int USUAL_TEMPO = 1200;
-    private static final long NATURAL_LENGTH_PER_TEMPO = 600000000L;
+    private static final long NATURAL_LENGTH_TIMES_TEMPO = 600000000L;
 
     private static final int CUE_BEAT = 0;
     private static final int CUE_TICK = 1;
@@ -50,18 +50,23 @@ public final class TempoPlayer {
     private static final long MOST_TARGET = 1000000000L;
     private static final long MICROSECONDS = 1000L;
 
-    private final Piece piece = new Piece();
-    private final Timeline times = new Timeline();
-    private final Playback playback = new Playback(piece, times);
+    /** The greatest "what" of some calls. */
+    private static final int LAST_OF_PLAYING = 6;
+    private static final int LAST_OF_BEAT = 6;
+    private static final int LAST_OF_CUE = 4;
+    private static final int LAST_OF_COUNT = 11;
+
+    private final Score score = new Score();
+    private final Piece piece = score.piece;
+    private final Playback playback = new Playback();
     private final History history = new History();
     private final Piece[] images = new Piece[MOST_IMAGES];
     private int keptImages;
     private final int[] input = new int[MOST_INPUT];
     private int inputLength;
     private final TextReader reader = new TextReader();
-    /** What ifMark supposes; one mark more than a piece may have. */
-    private final Table supposedMarks = new Table(MOST_MARKS + 1, MARK_WIDTH);
-    private final Timeline supposedTimes = new Timeline();
+    /** The piece that ifMark supposes. */
+    private final Score supposed = new Score();
 
     public TempoPlayer() {
         for (int image = 0; image < images.length; image++) {
@@ -74,9 +79,9 @@ public final class TempoPlayer {
     public int begin() throws IllegalStateException {
         needNothingPlayed();
         int before = piece.bars.rows;
-        history.record(piece);
+        history.remember(piece);
         piece.empty();
-        settle();
+        score.settle();
         return before;
     }
 
@@ -84,10 +89,10 @@ public final class TempoPlayer {
         needRange(beats, LEAST_VALUES[BEATS], MOST_VALUES[BEATS]);
         needRange(division, LEAST_VALUES[DIVISION], MOST_VALUES[DIVISION]);
         needNothingPlayed();
-        needRoom(piece.bars, 1);
-        history.record(piece);
+        needRoom(piece.bars, 1, MOST_BARS);
+        history.remember(piece);
         appendBar(piece.bars, beats, division);
-        settle();
+        score.settle();
         return piece.bars.rows - 1;
     }
 
@@ -100,19 +105,19 @@ public final class TempoPlayer {
         }
         needNothingPlayed();
         int before = piece.bars.cell(bar, what);
-        history.record(piece);
+        history.remember(piece);
         piece.bars.put(bar, what, value);
         dropLostAccents(bar);
-        settle();
+        score.settle();
         return before;
     }
 
     public int removeBar(int bar) throws IndexOutOfBoundsException, IllegalStateException {
         needIndex(bar, piece.bars.rows);
         needNothingPlayed();
-        history.record(piece);
+        history.remember(piece);
         piece.bars.dropRow(bar);
-        settle();
+        score.settle();
         return piece.bars.rows;
     }
 
@@ -121,31 +126,31 @@ public final class TempoPlayer {
         needRange(tempo, LEAST_TEMPO, MOST_TEMPO);
         needNothingPlayed();
         if (!isMarkAt(piece.marks, markPlace(piece.marks, beat), beat)) {
-            needRoom(piece.marks, 1);
+            needRoom(piece.marks, 1, MOST_MARKS);
         }
-        history.record(piece);
+        history.remember(piece);
         putMark(piece.marks, beat, tempo, gradual);
-        settle();
+        score.settle();
         return piece.marks.rows;
     }
 
     public int removeMark(int mark) throws IndexOutOfBoundsException, IllegalStateException {
         needIndex(mark, piece.marks.rows);
         needNothingPlayed();
-        history.record(piece);
+        history.remember(piece);
         piece.marks.dropRow(mark);
-        settle();
+        score.settle();
         return piece.marks.rows;
     }
 
     public int cue(int beat, int tick, int lead)
             throws IndexOutOfBoundsException, IllegalArgumentException, IllegalStateException {
-        needIndex(beat, times.beats);
+        needIndex(beat, score.beats);
         needRange(tick, 0, TICKS - 1);
         needRange(lead, 0, MOST_LEAD);
         needNothingPlayed();
-        needRoom(piece.cues, 1);
-        history.record(piece);
+        needRoom(piece.cues, 1, MOST_CUES);
+        history.remember(piece);
         int number = piece.cues.rows;
         piece.cues.openRow(number);
         piece.cues.put(number, CUE_BEAT, beat);
@@ -157,7 +162,7 @@ public final class TempoPlayer {
     public int removeCue(int cue) throws IndexOutOfBoundsException, IllegalStateException {
         needIndex(cue, piece.cues.rows);
         needNothingPlayed();
-        history.record(piece);
+        history.remember(piece);
         piece.cues.dropRow(cue);
         return piece.cues.rows;
     }
@@ -168,13 +173,13 @@ public final class TempoPlayer {
             throw new IllegalArgumentException("the buffer is not a complete text");
         }
         needNothingPlayed();
-        needRoom(piece.bars, reader.bars.rows);
-        history.record(piece);
+        needRoom(piece.bars, reader.bars.rows, MOST_BARS);
+        history.remember(piece);
         for (int bar = 0; bar < reader.bars.rows; bar++) {
             piece.bars.appendCopy(reader.bars, bar);
         }
         inputLength = 0;
-        settle();
+        score.settle();
         return piece.bars.rows;
     }
 
@@ -186,7 +191,7 @@ public final class TempoPlayer {
             throw new IllegalStateException("the history is empty");
         }
         history.takeBack(piece);
-        settle();
+        score.settle();
         return history.states;
     }
 
@@ -200,12 +205,12 @@ public final class TempoPlayer {
     public int back(int image) throws IndexOutOfBoundsException, IllegalStateException {
         needIndex(image, MOST_IMAGES);
         needNothingPlayed();
-        if ((keptImages >> image & 1) == 0) {
+        if (((keptImages >> image) & 1) == 0) {
             throw new IllegalStateException("the image keeps nothing");
         }
-        history.record(piece);
+        history.remember(piece);
         piece.copyFrom(images[image]);
-        settle();
+        score.settle();
         return piece.bars.rows;
     }
 
@@ -240,14 +245,14 @@ public final class TempoPlayer {
         needRange(countIn, 0, MOST_COUNT_IN);
         needRange(speed, LEAST_SPEED, MOST_SPEED);
         needNothingPlayed();
-        playback.open(times.firstBeatOf(bar), countIn, speed);
-        return playback.playedEnd();
+        playback.open(score.firstBeatOf(bar), countIn, speed);
+        return playback.playedEnd(score);
     }
 
     public int advance(int milliseconds) throws IllegalArgumentException, IllegalStateException {
         needRange(milliseconds, 1, MOST_ADVANCE);
         needSomethingPlayed();
-        return playback.hear(milliseconds * MICROSECONDS);
+        return playback.hear(score, milliseconds * MICROSECONDS);
     }
 
     public long stop() throws IllegalStateException {
@@ -257,7 +262,7 @@ public final class TempoPlayer {
     }
 
     public long playing(int what) throws IllegalArgumentException {
-        needRange(what, 0, 6);
+        needRange(what, 0, LAST_OF_PLAYING);
         if (!playback.on) {
             return NONE;
         }
@@ -265,11 +270,11 @@ public final class TempoPlayer {
             case 0:
                 return playback.clock;
             case 1:
-                return playback.playedEnd();
+                return playback.playedEnd(score);
             case 2:
-                return playback.nextClickTime();
+                return playback.nextClickTime(score);
             case 3:
-                return playback.nextCueTime();
+                return playback.nextCueTime(score);
             case 4:
                 return playback.clicksHeard;
             case 5:
@@ -284,34 +289,34 @@ public final class TempoPlayer {
     public int bar(int bar, int what) throws IndexOutOfBoundsException, IllegalArgumentException {
         needIndex(bar, piece.bars.rows);
         needRange(what, 0, FIRST_BEAT);
-        return what == FIRST_BEAT ? times.firstBeatOf(bar) : piece.bars.cell(bar, what);
+        return what == FIRST_BEAT ? score.firstBeatOf(bar) : piece.bars.cell(bar, what);
     }
 
     public long beat(int beat, int what) throws IndexOutOfBoundsException, IllegalArgumentException {
-        needIndex(beat, times.beats);
-        needRange(what, 0, 6);
+        needIndex(beat, score.beats);
+        needRange(what, 0, LAST_OF_BEAT);
         switch (what) {
             case 0:
-                return times.barOf(beat);
+                return score.barOf(beat);
             case 1:
-                return times.placeInBar(beat);
+                return score.placeInBar(beat);
             case 2:
-                return times.tempoOf(beat);
+                return score.tempoOf(beat);
             case 3:
-                return times.naturalOf(beat);
+                return score.naturalOf(beat);
             case 4:
-                return times.beginOf(beat);
+                return score.beginOf(beat);
             case 5:
-                return times.lengthOf(beat);
+                return score.lengthOf(beat);
             default:
-                return accentOf(piece, times, beat);
+                return score.accentOf(beat);
         }
     }
 
     public long click(int beat, int click) throws IndexOutOfBoundsException {
-        needIndex(beat, times.beats);
-        needIndex(click, divisionOf(piece, times, beat));
-        return clickTime(piece, times, beat, click);
+        needIndex(beat, score.beats);
+        needIndex(click, score.divisionOf(beat));
+        return score.clickTime(beat, click);
     }
 
     public int tempo(int mark, int what) throws IndexOutOfBoundsException, IllegalArgumentException {
@@ -322,50 +327,50 @@ public final class TempoPlayer {
 
     public long cueAt(int cue, int what) throws IndexOutOfBoundsException, IllegalArgumentException {
         needIndex(cue, piece.cues.rows);
-        needRange(what, 0, 4);
+        needRange(what, 0, LAST_OF_CUE);
         if (what < CUE_WIDTH) {
             return piece.cues.cell(cue, what);
         }
-        return what == 3 ? cuePlace(piece, times, cue) : cuesBefore(cue);
+        return what == 3 ? score.cuePlace(cue) : score.cuesBefore(cue);
     }
 
     public int at(long time, int what) throws IllegalArgumentException {
         needRange(what, 0, 2);
-        if (time < 0 || time >= times.end) {
+        if (time < 0 || time >= score.end) {
             return NONE;
         }
-        int beat = times.beatAt(time);
-        long since = time - times.beginOf(beat);
+        int beat = score.beatAt(time);
+        long since = time - score.beginOf(beat);
         if (what == 0) {
             return beat;
         }
         if (what == 1) {
-            return (int) Math.min(quotient(since * TICKS, times.lengthOf(beat)), TICKS);
+            return (int) Math.min(quotient(since * TICKS, score.lengthOf(beat)), TICKS);
         }
-        return since >= times.lengthOf(beat) ? 1 : 0;
+        return since >= score.lengthOf(beat) ? 1 : 0;
     }
 
     public long count(int what) throws IllegalArgumentException {
-        needRange(what, 0, 11);
+        needRange(what, 0, LAST_OF_COUNT);
         switch (what) {
             case 0:
                 return piece.bars.rows;
             case 1:
-                return times.beats;
+                return score.beats;
             case 2:
                 return piece.marks.rows;
             case 3:
                 return piece.cues.rows;
             case 4:
-                return clicksOfPiece();
+                return score.clicksOfPiece();
             case 5:
-                return times.end;
+                return score.end;
             case 6:
-                return sumOfPauses();
+                return score.sumOfPauses();
             case 7:
-                return sumOfLengths(true);
+                return score.sumOfLengths(true);
             case 8:
-                return sumOfLengths(false);
+                return score.sumOfLengths(false);
             case 9:
                 return playback.on ? 1 : 0;
             case 10:
@@ -380,7 +385,7 @@ public final class TempoPlayer {
     public int bestSpeed(int bar, long target) throws IndexOutOfBoundsException, IllegalArgumentException {
         needIndex(bar, piece.bars.rows);
         needRange(target, 1, MOST_TARGET);
-        long natural = times.end - times.beginOf(times.firstBeatOf(bar));
+        long natural = score.end - score.beginOf(score.firstBeatOf(bar));
         int best = LEAST_SPEED;
         for (int speed = LEAST_SPEED + 1; speed <= MOST_SPEED; speed++) {
             if (distance(playedAt(natural, speed), target) < distance(playedAt(natural, best), target)) {
@@ -393,35 +398,35 @@ public final class TempoPlayer {
     public int rubberFor(int bar, long target) throws IndexOutOfBoundsException, IllegalArgumentException {
         needIndex(bar, piece.bars.rows);
         needRange(target, 1, MOST_TARGET);
-        long missing = target - (times.end - lengthOfBar(bar));
+        long missing = target - (score.end - score.lengthOfBar(bar));
         long roundedUp = quotient(Math.max(missing, 0) + MICROSECONDS - 1, MICROSECONDS);
         long length = Math.max(roundedUp, LEAST_VALUES[RUBBER]);
         return length > MOST_VALUES[RUBBER] ? NONE : (int) length;
     }
 
     public long ifMark(int beat, int mark, int tempo) throws IndexOutOfBoundsException, IllegalArgumentException {
-        needIndex(beat, times.beats);
+        needIndex(beat, score.beats);
         needRange(mark, 0, MOST_BEATS - 1);
         needRange(tempo, LEAST_TEMPO, MOST_TEMPO);
-        supposedMarks.copyFrom(piece.marks);
-        putMark(supposedMarks, mark, tempo, true);
-        supposedTimes.layOut(piece.bars, supposedMarks);
-        return supposedTimes.beginOf(beat);
+        supposed.piece.copyFrom(piece);
+        putMark(supposed.piece.marks, mark, tempo, true);
+        supposed.settle();
+        return supposed.beginOf(beat);
     }
 
     public double meanTempo() {
-        if (times.end <= 0) {
+        if (score.end <= 0) {
             return 0.0;
         }
-        return 60000000.0 * times.beats / (double) times.end;
+        return 60000000.0 * score.beats / (double) score.end;
     }
 
     public long digest() {
         long hash = 2083;
-        for (int what = 0; what <= 11; what++) {
+        for (int what = 0; what <= LAST_OF_COUNT; what++) {
             hash = 31 * hash + count(what);
         }
-        for (int what = 0; what <= 6; what++) {
+        for (int what = 0; what <= LAST_OF_PLAYING; what++) {
             hash = 31 * hash + playing(what);
         }
         hash = digestOfPiece(hash);
@@ -439,8 +444,8 @@ public final class TempoPlayer {
                 hash = 31 * hash + bar(bar, what);
             }
         }
-        for (int beat = 0; beat < times.beats; beat++) {
-            for (int what = 2; what <= 6; what++) {
+        for (int beat = 0; beat < score.beats; beat++) {
+            for (int what = 2; what <= LAST_OF_BEAT; what++) {
                 hash = 31 * hash + beat(beat, what);
             }
         }
@@ -450,7 +455,7 @@ public final class TempoPlayer {
             }
         }
         for (int cue = 0; cue < piece.cues.rows; cue++) {
-            for (int what = 0; what <= 4; what++) {
+            for (int what = 0; what <= LAST_OF_CUE; what++) {
                 hash = 31 * hash + cueAt(cue, what);
             }
         }
@@ -471,8 +476,8 @@ public final class TempoPlayer {
         }
     }
 
-    private static void needRoom(Table table, int more) throws IllegalStateException {
-        if (table.rows + more > table.most) {
+    private static void needRoom(Table table, int more, int most) throws IllegalStateException {
+        if (table.rows + more > most) {
             throw new IllegalStateException("there is no room for more");
         }
     }
@@ -490,16 +495,6 @@ public final class TempoPlayer {
     }
 
     // ---- changes
-
-    /** Brings the times up to date after a change, and removes the cues that lost their beat by it. */
-    private void settle() {
-        times.layOut(piece.bars, piece.marks);
-        for (int cue = piece.cues.rows - 1; cue >= 0; cue--) {
-            if (piece.cues.cell(cue, CUE_BEAT) >= times.beats) {
-                piece.cues.dropRow(cue);
-            }
-        }
-    }
 
     private void dropLostAccents(int bar) {
         int ofItsBeats = (1 << piece.bars.cell(bar, BEATS)) - 1;
@@ -539,73 +534,9 @@ public final class TempoPlayer {
         marks.put(place, MARK_GRADUAL, gradual ? 1 : 0);
     }
 
-    // ---- numbers of the piece
-
-    private static int divisionOf(Piece piece, Timeline times, int beat) {
-        return piece.bars.cell(times.barOf(beat), DIVISION);
-    }
-
-    private static int accentOf(Piece piece, Timeline times, int beat) {
-        return piece.bars.cell(times.barOf(beat), ACCENTS) >> times.placeInBar(beat) & 1;
-    }
-
-    private static long clickTime(Piece piece, Timeline times, int beat, int click) {
-        return times.beginOf(beat) + quotient(times.lengthOf(beat) * click, divisionOf(piece, times, beat));
-    }
-
-    private static long cuePlace(Piece piece, Timeline times, int cue) {
-        int beat = piece.cues.cell(cue, CUE_BEAT);
-        return times.beginOf(beat) + quotient(times.lengthOf(beat) * piece.cues.cell(cue, CUE_TICK), TICKS);
-    }
-
-    private long cuesBefore(int cue) {
-        long place = cuePlace(piece, times, cue);
-        long before = 0;
-        for (int other = 0; other < piece.cues.rows; other++) {
-            long otherPlace = cuePlace(piece, times, other);
-            if (otherPlace < place || otherPlace == place && other < cue) {
-                before++;
-            }
-        }
-        return before;
-    }
-
-    private long clicksOfPiece() {
-        long sum = 0;
-        for (int bar = 0; bar < piece.bars.rows; bar++) {
-            sum += piece.bars.cell(bar, BEATS) * piece.bars.cell(bar, DIVISION);
-        }
-        return sum;
-    }
-
-    private long sumOfPauses() {
-        long sum = 0;
-        for (int bar = 0; bar < piece.bars.rows; bar++) {
-            sum += piece.bars.cell(bar, PAUSE) * MICROSECONDS;
-        }
-        return sum;
-    }
-
-    private long sumOfLengths(boolean ofRubberBars) {
-        long sum = 0;
-        for (int bar = 0; bar < piece.bars.rows; bar++) {
-            if (piece.bars.cell(bar, RUBBER) > 0 == ofRubberBars) {
-                sum += lengthOfBar(bar);
-            }
-        }
-        return sum;
-    }
-
-    /** Without its pause. */
-    private long lengthOfBar(int bar) {
-        int first = times.firstBeatOf(bar);
-        int last = first + piece.bars.cell(bar, BEATS) - 1;
-        return times.beginOf(last) + times.lengthOf(last) - times.beginOf(first);
-    }
-
     // ---- arithmetic
 
-    /** Cuts towards 0, which is down for what is not negative; a divisor that is not positive never comes. */
+    /** Cuts towards 0, as a tempo wants it; of times, which are not negative, that is down. */
     private static long quotient(long value, long divisor) {
         return divisor > 0 ? value / divisor : 0;
     }
@@ -698,7 +629,8 @@ public final class TempoPlayer {
     /** What the history and the images keep. */
     private static final class Piece {
         final Table bars = new Table(MOST_BARS, BAR_WIDTH);
-        final Table marks = new Table(MOST_MARKS, MARK_WIDTH);
+        /** With one more than a piece may have, for ifMark. */
+        final Table marks = new Table(MOST_MARKS + 1, MARK_WIDTH);
         final Table cues = new Table(MOST_CUES, CUE_WIDTH);
 
         void empty() {
@@ -724,7 +656,7 @@ public final class TempoPlayer {
             }
         }
 
-        void record(Piece present) {
+        void remember(Piece present) {
             if (states >= kept.length) {
                 moveOldestToEnd();
                 states = kept.length - 1;
@@ -749,58 +681,71 @@ public final class TempoPlayer {
         }
     }
 
-    /** Where the beats are, worked out anew after each change; a beat that is not there has 0 for all. */
-    private static final class Timeline {
+    /** A piece with where its beats are; a beat that it does not have reads as 0. */
+    private static final class Score {
+        final Piece piece = new Piece();
         private final int[] firstBeats = new int[MOST_BARS];
-        private final int[] bars = new int[MOST_BEATS];
+        private final int[] barsOfBeats = new int[MOST_BEATS];
         private final int[] tempos = new int[MOST_BEATS];
         private final long[] begins = new long[MOST_BEATS];
         private final long[] lengths = new long[MOST_BEATS];
         int beats;
         long end;
 
-        void layOut(Table barTable, Table marks) {
-            numberBeats(barTable);
-            setTempos(marks);
-            end = 0;
-            for (int bar = 0; bar < barTable.rows; bar++) {
-                int first = firstBeatOf(bar);
-                placeBeats(first, first + barTable.cell(bar, BEATS), barTable.cell(bar, RUBBER) * MICROSECONDS);
-                end += barTable.cell(bar, PAUSE) * MICROSECONDS;
+        /** For after each change: works out the beats anew, and removes the cues that lost theirs by it. */
+        void settle() {
+            numberBeats();
+            setTempos();
+            placeBars();
+            for (int cue = piece.cues.rows - 1; cue >= 0; cue--) {
+                if (piece.cues.cell(cue, CUE_BEAT) >= beats) {
+                    piece.cues.dropRow(cue);
+                }
             }
         }
 
-        private void numberBeats(Table barTable) {
+        private void numberBeats() {
             beats = 0;
-            for (int bar = 0; bar < barTable.rows && bar < MOST_BARS; bar++) {
+            for (int bar = 0; bar < piece.bars.rows && bar < MOST_BARS; bar++) {
                 firstBeats[bar] = beats;
-                int after = Math.min(beats + barTable.cell(bar, BEATS), MOST_BEATS);
+                int after = Math.min(beats + piece.bars.cell(bar, BEATS), MOST_BEATS);
                 while (beats < after) {
-                    bars[beats] = bar;
+                    barsOfBeats[beats] = bar;
                     beats++;
                 }
             }
         }
 
-        private void setTempos(Table marks) {
+        private void setTempos() {
             int latest = NONE;
             for (int beat = 0; beat < beats; beat++) {
-                while (latest + 1 < marks.rows && marks.cell(latest + 1, MARK_BEAT) <= beat) {
+                while (latest + 1 < piece.marks.rows && piece.marks.cell(latest + 1, MARK_BEAT) <= beat) {
                     latest++;
                 }
-                tempos[beat] = latest == NONE ? USUAL_TEMPO : tempoUnder(marks, latest, beat);
+                tempos[beat] = latest == NONE ? USUAL_TEMPO : tempoUnder(latest, beat);
             }
         }
 
-        private static int tempoUnder(Table marks, int mark, int beat) {
+        private int tempoUnder(int mark, int beat) {
+            Table marks = piece.marks;
             int tempo = marks.cell(mark, MARK_TEMPO);
             if (marks.cell(mark, MARK_GRADUAL) == 0 || mark + 1 >= marks.rows) {
                 return tempo;
             }
-            int change = marks.cell(mark + 1, MARK_TEMPO) - tempo;
+            long change = marks.cell(mark + 1, MARK_TEMPO) - tempo;
             int from = marks.cell(mark, MARK_BEAT);
             int distance = marks.cell(mark + 1, MARK_BEAT) - from;
-            return tempo + (int) quotient((long) change * (beat - from), distance);
+            return tempo + (int) quotient(change * (beat - from), distance);
+        }
+
+        private void placeBars() {
+            end = 0;
+            for (int bar = 0; bar < piece.bars.rows; bar++) {
+                int first = firstBeatOf(bar);
+                int after = Math.min(first + piece.bars.cell(bar, BEATS), beats);
+                placeBeats(first, after, piece.bars.cell(bar, RUBBER) * MICROSECONDS);
+                end += piece.bars.cell(bar, PAUSE) * MICROSECONDS;
+            }
         }
 
         /** A bar that is no rubber bar is stretched too: to its own natural length, which changes nothing. */
@@ -812,7 +757,7 @@ public final class TempoPlayer {
             long length = rubber > 0 ? rubber : natural;
             long sum = 0;
             long begun = 0;
-            for (int beat = first; beat < after && beat < beats; beat++) {
+            for (int beat = first; beat < after; beat++) {
                 sum += naturalOf(beat);
                 long ended = quotient(length * sum, natural);
                 begins[beat] = end + begun;
@@ -827,7 +772,7 @@ public final class TempoPlayer {
         }
 
         int barOf(int beat) {
-            return beat >= 0 && beat < beats ? bars[beat] : 0;
+            return beat >= 0 && beat < beats ? barsOfBeats[beat] : 0;
         }
 
         int placeInBar(int beat) {
@@ -839,7 +784,7 @@ public final class TempoPlayer {
         }
 
         long naturalOf(int beat) {
-            return quotient(NATURAL_LENGTH_PER_TEMPO, tempoOf(beat));
+            return quotient(NATURAL_LENGTH_TIMES_TEMPO, tempoOf(beat));
         }
 
         long beginOf(int beat) {
@@ -850,6 +795,18 @@ public final class TempoPlayer {
             return beat >= 0 && beat < beats ? lengths[beat] : 0;
         }
 
+        int accentOf(int beat) {
+            return (piece.bars.cell(barOf(beat), ACCENTS) >> placeInBar(beat)) & 1;
+        }
+
+        int divisionOf(int beat) {
+            return piece.bars.cell(barOf(beat), DIVISION);
+        }
+
+        long clickTime(int beat, int click) {
+            return beginOf(beat) + quotient(lengthOf(beat) * click, divisionOf(beat));
+        }
+
         /** The latest beat that has begun at this time. */
         int beatAt(long time) {
             int beat = 0;
@@ -858,12 +815,61 @@ public final class TempoPlayer {
             }
             return beat;
         }
+
+        long cuePlace(int cue) {
+            int beat = piece.cues.cell(cue, CUE_BEAT);
+            return beginOf(beat) + quotient(lengthOf(beat) * piece.cues.cell(cue, CUE_TICK), TICKS);
+        }
+
+        long cuesBefore(int cue) {
+            long place = cuePlace(cue);
+            long before = 0;
+            for (int other = 0; other < piece.cues.rows; other++) {
+                long otherPlace = cuePlace(other);
+                if (otherPlace < place || otherPlace == place && other < cue) {
+                    before++;
+                }
+            }
+            return before;
+        }
+
+        long clicksOfPiece() {
+            long sum = 0;
+            for (int bar = 0; bar < piece.bars.rows; bar++) {
+                sum += piece.bars.cell(bar, BEATS) * piece.bars.cell(bar, DIVISION);
+            }
+            return sum;
+        }
+
+        long sumOfPauses() {
+            long sum = 0;
+            for (int bar = 0; bar < piece.bars.rows; bar++) {
+                sum += piece.bars.cell(bar, PAUSE) * MICROSECONDS;
+            }
+            return sum;
+        }
+
+        long sumOfLengths(boolean ofRubberBars) {
+            long sum = 0;
+            for (int bar = 0; bar < piece.bars.rows; bar++) {
+                boolean isRubberBar = piece.bars.cell(bar, RUBBER) > 0;
+                if (isRubberBar == ofRubberBars) {
+                    sum += lengthOfBar(bar);
+                }
+            }
+            return sum;
+        }
+
+        /** Without its pause. */
+        long lengthOfBar(int bar) {
+            int first = firstBeatOf(bar);
+            int last = first + piece.bars.cell(bar, BEATS) - 1;
+            return beginOf(last) + lengthOf(last) - beginOf(first);
+        }
     }
 
-    /** What is played, with how far it has been heard; the piece does not change meanwhile. */
+    /** How a score is played, and how far it has been heard; the score does not change meanwhile. */
     private static final class Playback {
-        private final Piece piece;
-        private final Timeline times;
         private int firstBeat;
         private int countIn;
         private int speed;
@@ -875,11 +881,6 @@ public final class TempoPlayer {
         int clicksHeard;
         int loudHeard;
         int cuesHeard;
-
-        Playback(Piece piece, Timeline times) {
-            this.piece = piece;
-            this.times = times;
-        }
 
         void open(int beat, int countInBeats, int percent) {
             firstBeat = beat;
@@ -895,54 +896,55 @@ public final class TempoPlayer {
             cuesHeard = 0;
         }
 
-        long playedEnd() {
-            return playedTime(times.end);
+        long playedEnd(Score score) {
+            return playedTime(score, score.end);
         }
 
-        private long playedTime(long time) {
-            return playedAt(countIn * times.lengthOf(firstBeat) + time - times.beginOf(firstBeat), speed);
+        private long playedTime(Score score, long time) {
+            return playedAt(countIn * score.lengthOf(firstBeat) + time - score.beginOf(firstBeat), speed);
         }
 
-        long nextClickTime() {
+        long nextClickTime(Score score) {
             if (countInHeard < countIn) {
-                return playedAt(countInHeard * times.lengthOf(firstBeat), speed);
+                return playedAt(countInHeard * score.lengthOf(firstBeat), speed);
             }
-            return nextBeat < times.beats ? playedTime(clickTime(piece, times, nextBeat, nextClick)) : NONE;
+            return nextBeat < score.beats ? playedTime(score, score.clickTime(nextBeat, nextClick)) : NONE;
         }
 
-        private boolean isPlayed(int cue) {
-            return piece.cues.cell(cue, CUE_BEAT) >= firstBeat;
+        private boolean isPlayed(Score score, int cue) {
+            return score.piece.cues.cell(cue, CUE_BEAT) >= firstBeat;
         }
 
-        private long cueTime(int cue) {
-            long lead = piece.cues.cell(cue, CUE_LEAD) * MICROSECONDS;
-            return Math.max(playedTime(cuePlace(piece, times, cue)) - lead, 0);
+        private long cueTime(Score score, int cue) {
+            long lead = score.piece.cues.cell(cue, CUE_LEAD) * MICROSECONDS;
+            return Math.max(playedTime(score, score.cuePlace(cue)) - lead, 0);
         }
 
         /** The least time from the clock on, as all before it has been heard. */
-        long nextCueTime() {
+        long nextCueTime(Score score) {
             long least = NONE;
-            for (int cue = 0; cue < piece.cues.rows; cue++) {
-                if (isPlayed(cue) && cueTime(cue) >= clock && (least == NONE || cueTime(cue) < least)) {
-                    least = cueTime(cue);
+            for (int cue = 0; cue < score.piece.cues.rows; cue++) {
+                long time = cueTime(score, cue);
+                if (isPlayed(score, cue) && time >= clock && (least == NONE || time < least)) {
+                    least = time;
                 }
             }
             return least;
         }
 
         /** Answers how many clicks and cues are heard in that. */
-        int hear(long microseconds) {
+        int hear(Score score, long microseconds) {
             long after = clock + microseconds;
-            int heard = hearClicks(after) + hearCues(after);
+            int heard = hearClicks(score, after) + hearCues(score, after);
             clock = after;
-            on = after < playedEnd();
+            on = after < playedEnd(score);
             return heard;
         }
 
-        private int hearClicks(long after) {
+        private int hearClicks(Score score, long after) {
             int heard = 0;
-            while (heard < MOST_CLICKS && isBefore(nextClickTime(), after)) {
-                hearClick();
+            while (heard < MOST_CLICKS && isBefore(nextClickTime(score), after)) {
+                hearClick(score);
                 heard++;
             }
             clicksHeard += heard;
@@ -953,25 +955,26 @@ public final class TempoPlayer {
             return time != NONE && time < after;
         }
 
-        private void hearClick() {
+        private void hearClick(Score score) {
             if (countInHeard < countIn) {
                 countInHeard++;
                 return;
             }
             if (nextClick == 0) {
-                loudHeard += accentOf(piece, times, nextBeat);
+                loudHeard += score.accentOf(nextBeat);
             }
             nextClick++;
-            if (nextClick >= divisionOf(piece, times, nextBeat)) {
+            if (nextClick >= score.divisionOf(nextBeat)) {
                 nextClick = 0;
                 nextBeat++;
             }
         }
 
-        private int hearCues(long after) {
+        private int hearCues(Score score, long after) {
             int heard = 0;
-            for (int cue = 0; cue < piece.cues.rows; cue++) {
-                if (isPlayed(cue) && cueTime(cue) >= clock && cueTime(cue) < after) {
+            for (int cue = 0; cue < score.piece.cues.rows; cue++) {
+                long time = cueTime(score, cue);
+                if (isPlayed(score, cue) && time >= clock && time < after) {
                     heard++;
                 }
             }

@@ -17,6 +17,7 @@ public final class PlayingTest {
         promise20Numbers();
         promise20Loud();
         promise20NextTimes();
+        promise18AllAtOnce();
         greatest();
         Check.close();
     }
@@ -261,6 +262,31 @@ public final class PlayingTest {
         player.start(0, 0, 100);
         player.advance(250);
         Check.same("a click at the clock is not heard yet", 250000, player.playing(2));
+    }
+
+    /** The most clicks and cues that there are, heard by one call. */
+    private static void promise18AllAtOnce() {
+        TempoPlayer player = new TempoPlayer();
+        for (int bar = 0; bar < 24; bar++) {
+            player.addBar(12, 8);
+            player.setBar(bar, 2, 100);
+            player.setBar(bar, 4, 4095);
+        }
+        for (int cue = 0; cue < 12; cue++) {
+            player.cue(24 * cue, 479, 3);
+        }
+        player.setBar(23, 3, 20000);
+        Check.same("the played end", (8 * 8333 + 2400000 + 20000000) / 2, player.start(0, 8, 200));
+        Check.same("all clicks and cues", 8 + 24 * 12 * 8 + 12, player.advance(10000));
+        Check.same("clicks", 8 + 24 * 12 * 8, player.playing(4));
+        Check.same("loud", 24 * 12, player.playing(5));
+        Check.same("cues", 12, player.playing(6));
+        Check.same("no click any more", TempoPlayer.NONE, player.playing(2));
+        Check.same("no cue any more", TempoPlayer.NONE, player.playing(3));
+        Check.same("nothing more to hear", 0, player.advance(1233));
+        player.stop();
+        player.start(0, 8, 200);
+        Check.same("up to the end and over it", 8 + 24 * 12 * 8 + 12, player.advance(60000));
     }
 
     /** The longest piece that there is, with all of its clicks. */
