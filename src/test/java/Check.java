@@ -1,4 +1,8 @@
-/** Counts what a test finds wrong; each test's main method ends with close(). */
+import java.util.List;
+import java.util.function.Consumer;
+import java.util.function.Supplier;
+
+/** Counts what a test finds wrong; each test's main method ends with close(), or with that of Doc. */
 final class Check {
     interface Call {
         void run();
@@ -6,8 +10,18 @@ final class Check {
 
     private static int looked = 0;
     private static int wrong = 0;
+    /** The promise, and the words of it, that the answers are looked at for. */
+    private static String about = "";
 
     private Check() {
+    }
+
+    static void about(String words) {
+        about = words;
+    }
+
+    static int looked() {
+        return looked;
     }
 
     static void same(String what, long due, long got) {
@@ -21,28 +35,6 @@ final class Check {
         same(what, Double.doubleToLongBits(due), Double.doubleToLongBits(got));
     }
 
-    /** The call throws exactly this, and changes nothing that the digest tells. */
-    static void refused(String what, TempoPlayer player, Class<? extends RuntimeException> due, Call call) {
-        looked++;
-        long before = player.digest();
-        Class<?> got = thrownBy(call);
-        if (got != due) {
-            complain(what + " threw " + got + ", due is " + due);
-        }
-        if (player.digest() != before) {
-            complain(what + " was refused and changed something");
-        }
-    }
-
-    static Class<?> thrownBy(Call call) {
-        try {
-            call.run();
-            return null;
-        } catch (RuntimeException e) {
-            return e.getClass();
-        }
-    }
-
     static void sameText(String what, String due, String got) {
         looked++;
         if (!got.equals(due)) {
@@ -54,10 +46,38 @@ final class Check {
         same(what, 1, is ? 1 : 0);
     }
 
+    /** The call throws exactly this, and changes nothing that the digest tells. */
+    static void refused(String what, TempoPlayer player, Class<?> due, Call call) {
+        long before = player.digest();
+        throwsThis(what, due, call);
+        same(what + " was refused; the digest behind it", before, player.digest());
+    }
+
+    /** The same with a look at all that there is, beside a player that was not called. */
+    static void refusedOn(Supplier<TempoPlayer> maker, String what, Class<?> due, Consumer<TempoPlayer> call) {
+        TempoPlayer player = maker.get();
+        throwsThis(what, due, () -> call.accept(player));
+        List<Long> untouched = Look.at(maker.get());
+        sameText(what + " was refused; all that there is behind it", untouched.toString(), Look.at(player).toString());
+    }
+
+    private static void throwsThis(String what, Class<?> due, Call call) {
+        sameText(what, "throws " + due, "throws " + thrownBy(call));
+    }
+
+    static Class<?> thrownBy(Call call) {
+        try {
+            call.run();
+            return null;
+        } catch (RuntimeException e) {
+            return e.getClass();
+        }
+    }
+
     static void complain(String what) {
         wrong++;
         if (wrong <= 20) {
-            System.out.println(what);
+            System.out.println(about + what);
         }
     }
 

@@ -28,12 +28,13 @@ public final class FaceTest {
         "long digest()");
 
     public static void main(String[] args) throws NoSuchFieldException {
+        Doc.says("The constants", "`NONE = -1`: There is no such number.");
         Check.same("NONE", -1, TempoPlayer.NONE);
         Check.isTrue("the class is public and final",
             (TempoPlayer.class.getModifiers() & (Modifier.PUBLIC | Modifier.FINAL)) == (Modifier.PUBLIC | Modifier.FINAL));
         methods();
         fieldsAndConstructors();
-        Check.close();
+        Doc.close(FaceTest.class);
     }
 
     private static void methods() {

@@ -11,10 +11,6 @@ import java.util.regex.Pattern;
  * but the state, every list is made anew, and every answer is searched for.
  */
 final class Model {
-    static final String[] CALLS = {"begin", "addBar", "setBar", "removeBar", "mark", "removeMark", "cue", "removeCue", "load",
-        "undo", "keep", "back", "append", "clearInput", "firstError", "start", "advance", "stop", "playing", "bar", "beat",
-        "click", "tempo", "cueAt", "at", "count", "bestSpeed", "rubberFor", "ifMark", "meanTempo", "digest"};
-
     private static final String BAR = "(1[0-2]|[1-9])(d([1-8]))?(r([1-9][0-9]{2,3}|[1-5][0-9]{4}|60000))?"
         + "(p([1-9][0-9]{0,3}|1[0-9]{4}|20000))?";
     private static final Pattern ONE_BAR = Pattern.compile(BAR);

@@ -1,293 +1,467 @@
 /** Promises 1 to 10: a new object and the changes of a piece. */
 public final class PieceTest {
     public static void main(String[] args) {
-        promise1NewObject();
-        promise2Begin();
-        promise3AddBar();
-        promise4SetBar();
-        promise4Ranges();
-        promise4Accents();
-        promise5RemoveBar();
-        promise6Mark();
-        promise6Limits();
-        promise7RemoveMark();
-        promise8Cue();
-        promise8Limits();
-        promise9RemoveCue();
-        lostCues();
-        promise10Load();
+        promise1();
+        promise2();
+        promise3();
+        promise3Refused();
+        promise4();
+        promise4Values();
+        promise4Refused();
+        promise5();
+        promise6();
+        promise6Refused();
+        promise7();
+        promise8();
+        promise8Refused();
+        promise9();
+        promise10();
         promise10Refused();
-        whilePlaying();
-        Check.close();
+        Doc.close(PieceTest.class);
     }
 
-    private static void promise1NewObject() {
+    private static void promise1() {
+        Doc.says(1, "Creates an empty piece without marks and cues; nothing is played, the buffer is empty, and the images keep "
+            + "nothing.");
+        Pieces.full();
         TempoPlayer player = new TempoPlayer();
         for (int what = 0; what <= 11; what++) {
-            Check.same("count of a new object", 0, player.count(what));
+            Check.same("count(" + what + ")", 0, player.count(what));
         }
         for (int what = 0; what <= 6; what++) {
-            Check.same("playing of a new object", TempoPlayer.NONE, player.playing(what));
+            Check.same("playing(" + what + ")", TempoPlayer.NONE, player.playing(what));
         }
-        Check.same("firstError of an empty buffer", 0, player.firstError());
-        Check.same("clearInput of an empty buffer", 0, player.clearInput());
-        Check.sameDouble("meanTempo without bars", 0.0, player.meanTempo());
-        Check.refused("undo", player, Pieces.STATE, player::undo);
-        Check.refused("back(0)", player, Pieces.STATE, () -> player.back(0));
-        Check.refused("back(1)", player, Pieces.STATE, () -> player.back(1));
-        Check.refused("stop", player, Pieces.STATE, player::stop);
+        for (int what = 0; what <= 2; what++) {
+            Check.same("at(0, " + what + ")", TempoPlayer.NONE, player.at(0, what));
+        }
+        Check.same("firstError", 0, player.firstError());
+        Check.same("clearInput", 0, player.clearInput());
+        Check.sameDouble("meanTempo", 0.0, player.meanTempo());
+        String[] calls = {"bar", "beat", "click", "tempo", "cueAt"};
+        for (String call : calls) {
+            new Trial(TempoPlayer::new, call, 0, 0).refused(Pieces.INDEX);
+        }
+        new Trial(TempoPlayer::new, "undo").refused(Pieces.STATE);
+        new Trial(TempoPlayer::new, "back", 0).refused(Pieces.STATE);
+        new Trial(TempoPlayer::new, "back", 1).refused(Pieces.STATE);
+        new Trial(TempoPlayer::new, "stop").refused(Pieces.STATE);
+        new Trial(TempoPlayer::new, "load").refused(Pieces.ARGUMENT);
     }
 
-    private static void promise2Begin() {
-        TempoPlayer player = Pieces.of("3;2");
-        player.mark(0, 1000, true);
-        player.cue(4, 0, 0);
-        Pieces.write(player, "7");
-        player.keep(0);
-        Check.same("begin", 2, player.begin());
+    private static void promise2() {
+        Doc.says(2, "Removes all bars, marks and cues.");
+        TempoPlayer player = Pieces.full();
+        player.begin();
         for (int what = 0; what <= 8; what++) {
-            Check.same("count after begin", 0, player.count(what));
+            Check.same("count(" + what + ") after begin", 0, player.count(what));
         }
-        Check.same("begin stays in the history", 4, player.count(10));
-        Check.same("begin leaves the images", 1, player.count(11));
-        Check.same("begin leaves the buffer", 1, player.clearInput());
-        Check.same("begin of nothing", 0, player.begin());
-        Check.same("begin of nothing is a change too", 5, player.count(10));
+        Check.same("the history stays", 8, player.count(10));
+        Check.same("the images stay", 3, player.count(11));
+        Check.same("the buffer stays", 60, player.clearInput());
+        Check.same("bars are numbered from 0 again", 0, player.addBar(1, 1));
+        Check.same("cues too", 0, player.cue(0, 0, 0));
+        Check.same("no mark is left", 1200, player.beat(0, 2));
         player.undo();
         player.undo();
-        Check.sameText("undone begin", "3 1 0 0 1 0", Pieces.barOf(player, 0));
-        Check.sameText("undone begin", "0:1000g", Pieces.marksOf(player));
-        Check.sameText("undone begin", "4:0-0", Pieces.cuesOf(player));
+        player.undo();
+        Check.same("undone: bars", 24, player.count(0));
+        Check.same("undone: marks", 10, player.count(2));
+        Check.same("undone: cues", 12, player.count(3));
+
+        Doc.says(2, "Returns how many bars there were.");
+        new Trial(TempoPlayer::new, "begin").answers(0);
+        new Trial(() -> Pieces.bars(1), "begin").answers(1);
+        new Trial(Pieces::full, "begin").answers(24);
+        TempoPlayer twice = Pieces.bars(2);
+        Check.same("begin", 2, twice.begin());
+        Check.same("begin of nothing", 0, twice.begin());
+        Check.same("it is recorded all the same", 4, twice.count(10));
+
+        Doc.says(2, "Throws `IllegalStateException` if something is played");
+        new Trial(Pieces::playing, "begin").refused(Pieces.STATE);
+        TempoPlayer stopped = Pieces.playing();
+        stopped.stop();
+        Check.same("begin after stop", 3, stopped.begin());
+        TempoPlayer over = Pieces.playing();
+        over.advance(60000);
+        Check.same("begin after the end", 3, over.begin());
     }
 
-    private static void promise3AddBar() {
-        TempoPlayer player = new TempoPlayer();
-        Check.same("addBar(1, 1)", 0, player.addBar(1, 1));
-        Check.same("addBar(12, 8)", 1, player.addBar(12, 8));
-        Check.same("addBar(5, 3)", 2, player.addBar(5, 3));
-        Check.sameText("bar 0", "1 1 0 0 1 0", Pieces.barOf(player, 0));
-        Check.sameText("bar 1", "12 8 0 0 1 1", Pieces.barOf(player, 1));
-        Check.sameText("bar 2", "5 3 0 0 1 13", Pieces.barOf(player, 2));
-        int[][] wrong = {{0, 1}, {13, 1}, {1, 0}, {1, 9}, {-1, 1}, {1, -1}, {Integer.MAX_VALUE, 1}, {1, Integer.MIN_VALUE}};
+    private static void promise3() {
+        Trial addBar = new Trial(Pieces::rich, "addBar", 4, 2);
+        Doc.says(3, "Adds a bar behind the last one, with an accent on its first beat alone; it is no rubber bar, and has no pause.");
+        TempoPlayer player = Pieces.rich();
+        player.addBar(12, 8);
+        Check.sameText("the new bar", "12 8 0 0 1 9", Pieces.barOf(player, 3));
+        Check.sameText("the bar before it", "2 8 0 20 1 7", Pieces.barOf(player, 2));
+        Check.same("marks stay", 2, player.count(2));
+        Check.same("cues stay", 3, player.count(3));
+        Check.same("one change", 8, player.count(10));
+        player.undo();
+        Check.same("undone", 3, player.count(0));
+
+        Doc.says(3, "`beats`: 1 to 12");
+        addBar.range(0, 1, 12, Pieces.ARGUMENT);
+        for (int beats = 1; beats <= 12; beats++) {
+            TempoPlayer one = new TempoPlayer();
+            one.addBar(beats, 1);
+            Check.same("beats", beats, one.count(1));
+        }
+
+        Doc.says(3, "`division`: 1 to 8");
+        addBar.range(1, 1, 8, Pieces.ARGUMENT);
+        for (int division = 1; division <= 8; division++) {
+            TempoPlayer one = new TempoPlayer();
+            one.addBar(12, division);
+            Check.same("clicks", 12 * division, one.count(4));
+        }
+
+        Doc.says(3, "Returns its number.");
+        new Trial(TempoPlayer::new, "addBar", 1, 1).answers(0);
+        addBar.answers(3);
+        new Trial(() -> Pieces.bars(23), "addBar", 12, 8).answers(23);
+    }
+
+    private static void promise3Refused() {
+        Doc.says(3, "Throws `IllegalArgumentException` if an argument is out of range");
+        Trial addBar = new Trial(Pieces::rich, "addBar", 4, 2);
+        addBar.refuses(0, Pieces.ARGUMENT, 0, 13, Integer.MIN_VALUE, Integer.MAX_VALUE);
+        addBar.refuses(1, Pieces.ARGUMENT, 0, 9, Integer.MIN_VALUE, Integer.MAX_VALUE);
+        new Trial(Pieces::rich, "addBar", 13, 0).refused(Pieces.ARGUMENT);
+
+        Doc.says(3, "Throws `IllegalStateException` if something is played, or there are 24 bars");
+        new Trial(Pieces::playing, "addBar", 1, 1).refused(Pieces.STATE);
+        new Trial(Pieces::full, "addBar", 1, 1).refused(Pieces.STATE);
+        new Trial(() -> Pieces.bars(24), "addBar", 12, 8).refused(Pieces.STATE);
+        TempoPlayer player = Pieces.bars(24);
+        player.removeBar(0);
+        Check.same("when one was removed", 23, player.addBar(12, 8));
+        Check.refused("addBar", player, Pieces.STATE, () -> player.addBar(12, 8));
+    }
+
+    private static void promise4() {
+        Doc.says(4, "Changes a property of a bar.");
+        TempoPlayer player = Pieces.of("4;3d2;1");
+        player.setBar(1, 0, 5);
+        player.setBar(1, 1, 7);
+        player.setBar(1, 2, 900);
+        player.setBar(1, 3, 800);
+        player.setBar(1, 4, 0b10010);
+        Check.sameText("the bar", "5 7 900 800 18 4", Pieces.barOf(player, 1));
+        Check.sameText("the one before", "4 1 0 0 1 0", Pieces.barOf(player, 0));
+        Check.sameText("the one behind", "1 1 0 0 1 9", Pieces.barOf(player, 2));
+        Check.same("one change each", 6, player.count(10));
+        player.setBar(1, 1, 7);
+        Check.same("a change to the same is recorded", 7, player.count(10));
+        player.undo();
+        player.undo();
+        player.undo();
+        Check.sameText("undone", "5 7 900 0 1 4", Pieces.barOf(player, 1));
+
+        Doc.says(4, "(Marks and cues keep the numbers of their beats.)");
+        TempoPlayer kept = Pieces.rich();
+        kept.setBar(0, 0, 4);
+        Check.sameText("marks with a beat more", "1:600g 200:4000", Pieces.marksOf(kept));
+        Check.sameText("cues with a beat more", "8:100-200 0:479-0 4:1-5000", Pieces.cuesOf(kept));
+        kept.setBar(0, 0, 3);
+        Check.sameText("cues with a beat fewer", "8:100-200 0:479-0 4:1-5000", Pieces.cuesOf(kept));
+        kept.setBar(0, 0, 2);
+        Check.sameText("marks with two fewer", "1:600g 200:4000", Pieces.marksOf(kept));
+        Check.sameText("cues with two fewer", "0:479-0 4:1-5000", Pieces.cuesOf(kept));
+
+        Doc.says(4, "`bar`: the bar");
+        Trial setBar = new Trial(Pieces::rich, "setBar", 1, 1, 3);
+        setBar.range(0, 0, 2, Pieces.INDEX);
+        new Trial(Pieces::full, "setBar", 1, 1, 3).range(0, 0, 23, Pieces.INDEX);
+        new Trial(TempoPlayer::new, "setBar", 0, 1, 3).refused(Pieces.INDEX);
+    }
+
+    private static void promise4Values() {
+        Doc.says(4, "`what`: 0 for its beats, 1 for its division, 2 for its rubber length (0, or 100 to 60000), 3 for its pause, 4 for "
+            + "its accents (0 to 4095; only bits of its beats are kept)");
+        new Trial(Pieces::rich, "setBar", 1, 1, 1).range(1, 0, 4, Pieces.INDEX);
+        new Trial(Pieces::rich, "setBar", 1, 0, 2).range(2, 1, 12, Pieces.ARGUMENT);
+        new Trial(Pieces::rich, "setBar", 1, 1, 2).range(2, 1, 8, Pieces.ARGUMENT);
+        Trial rubber = new Trial(Pieces::rich, "setBar", 1, 2, 900);
+        rubber.takes(2, 0, 100, 60000);
+        rubber.refuses(2, Pieces.ARGUMENT, -1, 1, 50, 99, 60001, -100, 65536, 65636, Integer.MIN_VALUE, Integer.MAX_VALUE);
+        new Trial(Pieces::rich, "setBar", 1, 3, 2).range(2, 0, 20000, Pieces.ARGUMENT);
+        new Trial(Pieces::rich, "setBar", 1, 4, 2).range(2, 0, 4095, Pieces.ARGUMENT);
+
+        Doc.says(4, "`value`: the new value");
+        int[][] values = {{0, 1}, {0, 12}, {1, 1}, {1, 8}, {2, 100}, {2, 60000}, {2, 0}, {3, 1}, {3, 20000}, {3, 0}, {4, 4095},
+            {4, 0}, {4, 2048}, {4, 1}};
+        TempoPlayer player = Pieces.rich();
+        for (int[] pair : values) {
+            player.setBar(2, 0, 12);
+            player.setBar(2, pair[0], pair[1]);
+            Check.same("bar(2, " + pair[0] + ")", pair[1], player.bar(2, pair[0]));
+        }
+        player.setBar(0, 4, 4095);
+        Check.same("accents of 3 beats", 7, player.bar(0, 4));
+        player.setBar(0, 4, 4088);
+        Check.same("none of its beats'", 0, player.bar(0, 4));
+
+        Doc.says(4, "Returns the previous value.");
+        TempoPlayer one = Pieces.of("4d3r100p20000");
+        int[][] previous = {{0, 12, 4}, {0, 1, 12}, {1, 8, 3}, {1, 1, 8}, {2, 0, 100}, {2, 60000, 0}, {2, 100, 60000},
+            {3, 0, 20000}, {3, 1, 0}, {4, 4095, 1}, {4, 0, 1}, {4, 1, 0}, {0, 2, 1}};
+        for (int[] row : previous) {
+            Check.same("setBar(0, " + row[0] + ", " + row[1] + ")", row[2], one.setBar(0, row[0], row[1]));
+        }
+    }
+
+    private static void promise4Refused() {
+        Doc.says(4, "Throws `IndexOutOfBoundsException` if the bar does not exist, or what is not 0 to 4");
+        Trial setBar = new Trial(Pieces::rich, "setBar", 0, 0, 1);
+        setBar.refuses(0, Pieces.INDEX, -1, 3, Integer.MIN_VALUE, Integer.MAX_VALUE);
+        setBar.refuses(1, Pieces.INDEX, -1, 5, Integer.MIN_VALUE, Integer.MAX_VALUE);
+
+        Doc.says(4, "Throws `IllegalArgumentException` if value is out of range");
+        int[][] wrong = {{0, 0}, {0, 13}, {1, 0}, {1, 9}, {2, 99}, {2, 60001}, {3, -1}, {3, 20001}, {4, -1}, {4, 4096}};
         for (int[] pair : wrong) {
-            Check.refused("addBar(" + pair[0] + ", " + pair[1] + ")", player, Pieces.ARGUMENT,
-                () -> player.addBar(pair[0], pair[1]));
+            new Trial(Pieces::rich, "setBar", 0, pair[0], pair[1]).refused(Pieces.ARGUMENT);
         }
-        for (int bar = 3; bar < 24; bar++) {
-            Check.same("addBar", bar, player.addBar(2, 2));
+
+        Doc.says(4, "Throws `IllegalStateException` if something is played");
+        for (int what = 0; what <= 4; what++) {
+            new Trial(Pieces::playing, "setBar", 0, what, what == 2 ? 100 : 1).refused(Pieces.STATE);
         }
-        Check.refused("a 25th bar", player, Pieces.STATE, () -> player.addBar(1, 1));
-        Check.refused("a 25th bar, wrong", player, Pieces.ARGUMENT, () -> player.addBar(0, 1));
-        Check.same("bars", 24, player.count(0));
-        Check.same("removeBar", 23, player.removeBar(23));
-        Check.same("the 24th bar again", 23, player.addBar(1, 1));
     }
 
-    private static void promise4SetBar() {
-        TempoPlayer player = Pieces.of("4;3d2");
-        player.mark(4, 600, false);
-        player.cue(5, 1, 2);
-        Check.same("beats", 4, player.setBar(0, 0, 5));
-        Check.same("division", 2, player.setBar(1, 1, 8));
-        Check.same("rubber", 0, player.setBar(0, 2, 900));
-        Check.same("rubber", 900, player.setBar(0, 2, 0));
-        Check.same("pause", 0, player.setBar(1, 3, 20000));
-        Check.same("pause", 20000, player.setBar(1, 3, 1));
-        Check.same("accents", 1, player.setBar(0, 4, 0));
-        Check.same("accents", 0, player.setBar(0, 4, 31));
-        Check.sameText("bar 0", "5 1 0 0 31 0", Pieces.barOf(player, 0));
-        Check.sameText("bar 1", "3 8 0 1 1 5", Pieces.barOf(player, 1));
-        Check.sameText("marks keep their beats", "4:600", Pieces.marksOf(player));
-        Check.sameText("cues keep their beats", "5:1-2", Pieces.cuesOf(player));
-        player.setBar(1, 1, 8);
-        Check.same("a change to the same is recorded", 8, player.count(10));
-        player.undo();
-        player.undo();
-        Check.sameText("undone", "5 1 0 0 0 0", Pieces.barOf(player, 0));
-    }
-
-    private static void promise4Ranges() {
-        TempoPlayer player = Pieces.of("4;3d2");
-        int[][] wrong = {{0, 0}, {0, 13}, {0, -1}, {1, 0}, {1, 9}, {2, -1}, {2, 1}, {2, 99}, {2, 60001}, {3, -1},
-            {3, 20001}, {4, -1}, {4, 4096}, {4, Integer.MIN_VALUE}, {3, Integer.MAX_VALUE}};
-        for (int[] pair : wrong) {
-            Check.refused("setBar(0, " + pair[0] + ", " + pair[1] + ")", player, Pieces.ARGUMENT,
-                () -> player.setBar(0, pair[0], pair[1]));
-        }
-        int[][] right = {{0, 1}, {0, 12}, {1, 1}, {1, 8}, {2, 100}, {2, 60000}, {2, 0}, {3, 1}, {3, 20000}, {3, 0},
-            {4, 1}, {4, 4095}, {4, 0}};
-        for (int[] pair : right) {
-            player.setBar(1, pair[0], pair[1]);
-            Check.same("set " + pair[0], pair[1], player.bar(1, pair[0]));
-        }
-        Check.refused("bar 2", player, Pieces.INDEX, () -> player.setBar(2, 0, 99));
-        Check.refused("bar -1", player, Pieces.INDEX, () -> player.setBar(-1, 0, 1));
-        Check.refused("what 5", player, Pieces.INDEX, () -> player.setBar(0, 5, -7));
-        Check.refused("what -1", player, Pieces.INDEX, () -> player.setBar(0, -1, 0));
-        Check.sameText("bar 0", "4 1 0 0 1 0", Pieces.barOf(player, 0));
-    }
-
-    private static void promise4Accents() {
-        TempoPlayer player = Pieces.of("3");
-        Check.same("accents", 1, player.setBar(0, 4, 4095));
-        Check.same("only bits of its beats", 7, player.bar(0, 4));
-        player.setBar(0, 0, 12);
-        Check.same("more beats", 7, player.bar(0, 4));
-        player.setBar(0, 4, 0b100000000110);
-        player.setBar(0, 0, 2);
-        Check.same("fewer beats", 2, player.bar(0, 4));
-        player.setBar(0, 0, 12);
-        Check.same("more beats again", 2, player.bar(0, 4));
-        player.undo();
-        player.undo();
-        Check.same("undone", 0b100000000110, player.bar(0, 4));
-    }
-
-    private static void promise5RemoveBar() {
+    private static void promise5() {
+        Doc.says(5, "Removes a bar; the numbers of the later ones decrease by 1.");
         TempoPlayer player = Pieces.of("1;2d2;3r300;4p4");
-        player.mark(9, 600, false);
-        Check.same("removeBar(1)", 3, player.removeBar(1));
+        player.removeBar(1);
         Check.sameText("bar 0", "1 1 0 0 1 0", Pieces.barOf(player, 0));
         Check.sameText("bar 1", "3 1 300 0 1 1", Pieces.barOf(player, 1));
         Check.sameText("bar 2", "4 1 0 4 1 4", Pieces.barOf(player, 2));
-        Check.sameText("marks stay", "9:600", Pieces.marksOf(player));
-        Check.refused("bar 3", player, Pieces.INDEX, () -> player.removeBar(3));
-        Check.refused("bar -1", player, Pieces.INDEX, () -> player.removeBar(-1));
-        Check.same("the last one", 2, player.removeBar(2));
-        Check.same("the first one", 1, player.removeBar(0));
+        Check.refused("bar 3", player, Pieces.INDEX, () -> player.bar(3, 0));
+        player.removeBar(2);
+        player.removeBar(0);
         Check.sameText("bar 0", "3 1 300 0 1 0", Pieces.barOf(player, 0));
-        Check.same("all", 0, player.removeBar(0));
-        Check.refused("none is left", player, Pieces.INDEX, () -> player.removeBar(0));
+        player.removeBar(0);
+        Check.same("the end of nothing", 0, player.count(5));
         player.undo();
         Check.sameText("undone", "3 1 300 0 1 0", Pieces.barOf(player, 0));
+
+        Doc.says(5, "(Marks and cues keep the numbers of their beats.)");
+        TempoPlayer kept = Pieces.rich();
+        kept.removeBar(0);
+        Check.sameText("marks", "1:600g 200:4000", Pieces.marksOf(kept));
+        Check.sameText("cues of beats that there are", "0:479-0 4:1-5000", Pieces.cuesOf(kept));
+
+        Doc.says(5, "`bar`: the bar");
+        new Trial(Pieces::rich, "removeBar", 1).range(0, 0, 2, Pieces.INDEX);
+        new Trial(Pieces::full, "removeBar", 1).range(0, 0, 23, Pieces.INDEX);
+
+        Doc.says(5, "Returns how many bars are left.");
+        new Trial(Pieces::full, "removeBar", 23).answers(23);
+        new Trial(Pieces::rich, "removeBar", 0).answers(2);
+        new Trial(() -> Pieces.bars(1), "removeBar", 0).answers(0);
+
+        Doc.says(5, "Throws `IndexOutOfBoundsException` if the bar does not exist");
+        new Trial(TempoPlayer::new, "removeBar", 0).refused(Pieces.INDEX);
+        new Trial(Pieces::rich, "removeBar", 0).refuses(0, Pieces.INDEX, -1, 3, Integer.MIN_VALUE, Integer.MAX_VALUE);
+
+        Doc.says(5, "Throws `IllegalStateException` if something is played");
+        new Trial(Pieces::playing, "removeBar", 0).refused(Pieces.STATE);
+        new Trial(Pieces::playing, "removeBar", 2).refused(Pieces.STATE);
     }
 
-    private static void promise6Mark() {
+    private static void promise6() {
+        Trial mark = new Trial(Pieces::rich, "mark", 3, 800, 0);
+        Doc.says(6, "Sets a tempo mark, in place of one at the same beat.");
         TempoPlayer player = new TempoPlayer();
-        Check.same("mark", 1, player.mark(5, 600, false));
-        Check.same("before it", 2, player.mark(0, 200, true));
-        Check.same("behind it", 3, player.mark(287, 4000, true));
-        Check.same("between", 4, player.mark(4, 300, false));
-        Check.sameText("in order", "0:200g 4:300 5:600 287:4000g", Pieces.marksOf(player));
-        Check.same("in place of one", 4, player.mark(4, 301, true));
-        Check.same("in place of one", 4, player.mark(287, 3999, false));
-        Check.same("in place of one", 4, player.mark(0, 201, false));
-        Check.sameText("replaced", "0:201 4:301g 5:600 287:3999", Pieces.marksOf(player));
+        player.mark(5, 600, false);
+        player.mark(0, 200, true);
+        player.mark(287, 4000, true);
+        Check.sameText("three", "0:200g 5:600 287:4000g", Pieces.marksOf(player));
+        player.mark(287, 3999, false);
+        player.mark(0, 201, false);
+        player.mark(5, 601, true);
+        Check.sameText("each replaced", "0:201 5:601g 287:3999", Pieces.marksOf(player));
         player.undo();
-        Check.sameText("undone", "0:200g 4:301g 5:600 287:3999", Pieces.marksOf(player));
+        Check.sameText("undone", "0:201 5:600 287:3999", Pieces.marksOf(player));
+
+        Doc.says(6, "`beat`: 0 to 287");
+        mark.range(0, 0, 287, Pieces.ARGUMENT);
+
+        Doc.says(6, "`tempo`: 200 to 4000");
+        mark.range(1, 200, 4000, Pieces.ARGUMENT);
+
+        Doc.says(6, "`gradual`: true if it changes gradually to the next one");
+        TempoPlayer gradual = Pieces.of("3");
+        gradual.mark(0, 1000, true);
+        gradual.mark(2, 2000, false);
+        Check.same("gradual", 1, gradual.tempo(0, 2));
+        Check.same("half-way", 1500, gradual.beat(1, 2));
+        gradual.mark(0, 1000, false);
+        Check.same("not gradual", 0, gradual.tempo(0, 2));
+        Check.same("no change", 1000, gradual.beat(1, 2));
+
+        Doc.says(6, "Returns how many marks there are then.");
+        new Trial(TempoPlayer::new, "mark", 0, 200, 0).answers(1);
+        mark.answers(3);
+        mark.answers(0, 200, 2);
+        new Trial(Pieces::full, "mark", 9, 200, 0).answers(10);
     }
 
-    private static void promise6Limits() {
-        TempoPlayer player = new TempoPlayer();
-        int[][] wrong = {{-1, 1200}, {288, 1200}, {0, 199}, {0, 4001}, {Integer.MIN_VALUE, 1200}, {0, Integer.MAX_VALUE}};
-        for (int[] pair : wrong) {
-            Check.refused("mark(" + pair[0] + ", " + pair[1] + ")", player, Pieces.ARGUMENT,
-                () -> player.mark(pair[0], pair[1], true));
-        }
-        for (int mark = 0; mark < 10; mark++) {
-            Check.same("mark", mark + 1, player.mark(9 - mark, 1000 + mark, false));
-        }
-        Check.refused("an 11th mark", player, Pieces.STATE, () -> player.mark(10, 1200, false));
-        Check.refused("an 11th mark, wrong", player, Pieces.ARGUMENT, () -> player.mark(10, 199, false));
-        Check.same("in place of one", 10, player.mark(9, 500, true));
-        Check.same("in place of one", 10, player.mark(0, 400, true));
-        Check.same("the first one", 400, player.tempo(0, 1));
-        Check.same("the last one", 500, player.tempo(9, 1));
+    private static void promise6Refused() {
+        Doc.says(6, "Throws `IllegalArgumentException` if an argument is out of range");
+        Trial mark = new Trial(Pieces::rich, "mark", 3, 800, 0);
+        mark.refuses(0, Pieces.ARGUMENT, -1, 288, Integer.MIN_VALUE, Integer.MAX_VALUE);
+        mark.refuses(1, Pieces.ARGUMENT, 199, 4001, Integer.MIN_VALUE, Integer.MAX_VALUE);
+
+        Doc.says(6, "Throws `IllegalStateException` if something is played, or there are 10 marks and none is at this beat");
+        new Trial(Pieces::playing, "mark", 3, 800, 0).refused(Pieces.STATE);
+        new Trial(Pieces::playing, "mark", 1, 800, 0).refused(Pieces.STATE);
+        Trial full = new Trial(Pieces::full, "mark", 3, 800, 0);
+        full.refuses(0, Pieces.STATE, 10, 11, 287);
+        full.takes(0, 0, 5, 9);
+        TempoPlayer player = Pieces.full();
+        player.mark(0, 200, false);
+        player.mark(9, 300, true);
+        Check.same("marks", 10, player.count(2));
+        Check.same("the first one", 200, player.tempo(0, 1));
+        Check.same("the last one", 300, player.tempo(9, 1));
+        player.removeMark(0);
+        Check.same("when one was removed", 10, player.mark(287, 800, false));
+        Check.refused("where it was", player, Pieces.STATE, () -> player.mark(0, 800, false));
     }
 
-    private static void promise7RemoveMark() {
-        TempoPlayer player = new TempoPlayer();
+    private static void promise7() {
+        Doc.says(7, "Removes a tempo mark.");
+        TempoPlayer player = Pieces.of("4");
         player.mark(1, 600, false);
         player.mark(2, 700, true);
         player.mark(3, 800, false);
-        Check.refused("mark 3", player, Pieces.INDEX, () -> player.removeMark(3));
-        Check.refused("mark -1", player, Pieces.INDEX, () -> player.removeMark(-1));
-        Check.same("removeMark(1)", 2, player.removeMark(1));
+        player.removeMark(1);
         Check.sameText("left", "1:600 3:800", Pieces.marksOf(player));
-        Check.same("removeMark(0)", 1, player.removeMark(0));
+        Check.sameText("the tempos follow", "1200 600 600 800", Pieces.beatsOf(player, 2));
+        player.removeMark(0);
         Check.sameText("left", "3:800", Pieces.marksOf(player));
-        Check.same("removeMark(0)", 0, player.removeMark(0));
-        Check.refused("none is left", player, Pieces.INDEX, () -> player.removeMark(0));
+        player.removeMark(0);
+        Check.same("the times follow", 2000000, player.count(5));
         player.undo();
         player.undo();
         Check.sameText("undone", "1:600 3:800", Pieces.marksOf(player));
-        TempoPlayer timed = Pieces.of("2");
-        timed.mark(0, 600, false);
-        timed.removeMark(0);
-        Check.same("the times follow", 1000000, timed.count(5));
+
+        Doc.says(7, "`mark`: its number");
+        new Trial(Pieces::rich, "removeMark", 0).range(0, 0, 1, Pieces.INDEX);
+        new Trial(Pieces::full, "removeMark", 0).range(0, 0, 9, Pieces.INDEX);
+
+        Doc.says(7, "Returns how many marks are left.");
+        new Trial(Pieces::full, "removeMark", 9).answers(9);
+        new Trial(Pieces::rich, "removeMark", 0).answers(1);
+        TempoPlayer one = new TempoPlayer();
+        one.mark(287, 1200, true);
+        Check.same("removeMark", 0, one.removeMark(0));
+
+        Doc.says(7, "Throws `IndexOutOfBoundsException` if the mark does not exist");
+        Check.refused("no mark is left", one, Pieces.INDEX, () -> one.removeMark(0));
+        new Trial(TempoPlayer::new, "removeMark", 0).refused(Pieces.INDEX);
+        new Trial(Pieces::rich, "removeMark", 0).refuses(0, Pieces.INDEX, -1, 2, Integer.MIN_VALUE, Integer.MAX_VALUE);
+
+        Doc.says(7, "Throws `IllegalStateException` if something is played");
+        new Trial(Pieces::playing, "removeMark", 0).refused(Pieces.STATE);
     }
 
-    private static void promise8Cue() {
+    private static void promise8() {
+        Trial cue = new Trial(Pieces::rich, "cue", 3, 100, 1000);
+        Doc.says(8, "Adds a cue.");
         TempoPlayer player = Pieces.of("2;2");
-        Check.same("cue", 0, player.cue(3, 479, 5000));
-        Check.same("cue", 1, player.cue(0, 0, 0));
-        Check.same("the same again", 2, player.cue(3, 479, 5000));
-        Check.sameText("as they were added", "3:479-5000 0:0-0 3:479-5000", Pieces.cuesOf(player));
+        player.cue(3, 479, 5000);
+        player.cue(0, 0, 0);
+        player.cue(3, 479, 5000);
+        Check.sameText("cues", "3:479-5000 0:0-0 3:479-5000", Pieces.cuesOf(player));
         player.undo();
         Check.sameText("undone", "3:479-5000 0:0-0", Pieces.cuesOf(player));
+
+        Doc.says(8, "`beat`: a beat of the piece");
+        cue.range(0, 0, 8, Pieces.INDEX);
+
+        Doc.says(8, "`tick`: 0 to 479");
+        cue.range(1, 0, 479, Pieces.ARGUMENT);
+
+        Doc.says(8, "`lead`: 0 to 5000 milliseconds");
+        cue.range(2, 0, 5000, Pieces.ARGUMENT);
+
+        Doc.says(8, "Returns its number.");
+        new Trial(() -> Pieces.bars(1), "cue", 0, 0, 0).answers(0);
+        cue.answers(3);
+        TempoPlayer eleven = Pieces.full();
+        eleven.removeCue(0);
+        Check.same("the 12th", 11, eleven.cue(287, 479, 5000));
     }
 
-    private static void promise8Limits() {
-        TempoPlayer player = Pieces.of("2;2");
-        Check.refused("beat 4", player, Pieces.INDEX, () -> player.cue(4, 480, 0));
-        Check.refused("beat -1", player, Pieces.INDEX, () -> player.cue(-1, 0, 0));
-        Check.refused("tick 480", player, Pieces.ARGUMENT, () -> player.cue(0, 480, 0));
-        Check.refused("tick -1", player, Pieces.ARGUMENT, () -> player.cue(0, -1, 0));
-        Check.refused("lead 5001", player, Pieces.ARGUMENT, () -> player.cue(0, 0, 5001));
-        Check.refused("lead -1", player, Pieces.ARGUMENT, () -> player.cue(0, 0, -1));
-        for (int cue = 0; cue < 12; cue++) {
-            Check.same("cue", cue, player.cue(cue % 4, cue, cue));
-        }
-        Check.refused("a 13th cue", player, Pieces.STATE, () -> player.cue(0, 0, 0));
-        Check.refused("a 13th cue, wrong", player, Pieces.ARGUMENT, () -> player.cue(0, 480, 0));
-        Check.refused("a 13th cue at no beat", player, Pieces.INDEX, () -> player.cue(4, 0, 0));
-        Check.same("cues", 12, player.count(3));
+    private static void promise8Refused() {
+        Doc.says(8, "Throws `IndexOutOfBoundsException` if the piece does not have the beat");
+        new Trial(TempoPlayer::new, "cue", 0, 0, 0).refused(Pieces.INDEX);
+        new Trial(() -> Pieces.bars(1), "cue", 1, 0, 0).refused(Pieces.INDEX);
+        Trial cue = new Trial(Pieces::rich, "cue", 3, 100, 1000);
+        cue.refuses(0, Pieces.INDEX, -1, 9, Integer.MIN_VALUE, Integer.MAX_VALUE);
+        new Trial(Pieces::full, "cue", 288, 0, 0).refused(Pieces.INDEX);
+
+        Doc.says(8, "Throws `IllegalArgumentException` if tick or lead is out of range");
+        cue.refuses(1, Pieces.ARGUMENT, -1, 480, Integer.MIN_VALUE, Integer.MAX_VALUE);
+        cue.refuses(2, Pieces.ARGUMENT, -1, 5001, Integer.MIN_VALUE, Integer.MAX_VALUE);
+
+        Doc.says(8, "Throws `IllegalStateException` if something is played, or there are 12 cues");
+        new Trial(Pieces::playing, "cue", 3, 100, 1000).refused(Pieces.STATE);
+        new Trial(Pieces::full, "cue", 0, 0, 0).refused(Pieces.STATE);
+        TempoPlayer player = Pieces.full();
+        player.removeCue(11);
+        player.cue(0, 0, 0);
+        Check.refused("a 13th again", player, Pieces.STATE, () -> player.cue(0, 0, 0));
     }
 
-    private static void promise9RemoveCue() {
+    private static void promise9() {
+        Doc.says(9, "Removes a cue; the numbers of the later ones decrease by 1.");
         TempoPlayer player = Pieces.of("4");
         for (int cue = 0; cue < 4; cue++) {
             player.cue(cue, 10 + cue, 20 + cue);
         }
-        Check.refused("cue 4", player, Pieces.INDEX, () -> player.removeCue(4));
-        Check.refused("cue -1", player, Pieces.INDEX, () -> player.removeCue(-1));
-        Check.same("removeCue(1)", 3, player.removeCue(1));
+        player.removeCue(1);
         Check.sameText("left", "0:10-20 2:12-22 3:13-23", Pieces.cuesOf(player));
-        Check.same("removeCue(2)", 2, player.removeCue(2));
-        Check.same("removeCue(0)", 1, player.removeCue(0));
+        player.removeCue(2);
+        player.removeCue(0);
         Check.sameText("left", "2:12-22", Pieces.cuesOf(player));
-        Check.same("removeCue(0)", 0, player.removeCue(0));
-        Check.refused("none is left", player, Pieces.INDEX, () -> player.removeCue(0));
+        player.removeCue(0);
+        Check.same("none is left", 0, player.count(3));
         player.undo();
         player.undo();
         Check.sameText("undone", "0:10-20 2:12-22", Pieces.cuesOf(player));
+
+        Doc.says(9, "`cue`: its number");
+        new Trial(Pieces::rich, "removeCue", 1).range(0, 0, 2, Pieces.INDEX);
+        new Trial(Pieces::full, "removeCue", 1).range(0, 0, 11, Pieces.INDEX);
+
+        Doc.says(9, "Returns how many cues are left.");
+        new Trial(Pieces::full, "removeCue", 11).answers(11);
+        new Trial(Pieces::rich, "removeCue", 0).answers(2);
+        TempoPlayer one = Pieces.of("1");
+        one.cue(0, 0, 0);
+        Check.same("removeCue", 0, one.removeCue(0));
+
+        Doc.says(9, "Throws `IndexOutOfBoundsException` if the cue does not exist");
+        Check.refused("no cue is left", one, Pieces.INDEX, () -> one.removeCue(0));
+        new Trial(TempoPlayer::new, "removeCue", 0).refused(Pieces.INDEX);
+        new Trial(Pieces::rich, "removeCue", 0).refuses(0, Pieces.INDEX, -1, 3, Integer.MIN_VALUE, Integer.MAX_VALUE);
+
+        Doc.says(9, "Throws `IllegalStateException` if something is played");
+        new Trial(Pieces::playing, "removeCue", 0).refused(Pieces.STATE);
     }
 
-    private static void lostCues() {
-        TempoPlayer player = Pieces.of("2;3;1");
-        int[] beats = {5, 0, 4, 5, 3, 1};
-        for (int beat : beats) {
-            player.cue(beat, beat, 0);
-        }
-        player.setBar(0, 0, 1);
-        Check.sameText("one beat fewer", "0:0-0 4:4-0 3:3-0 1:1-0", Pieces.cuesOf(player));
-        player.setBar(0, 0, 2);
-        Check.sameText("they do not come back", "0:0-0 4:4-0 3:3-0 1:1-0", Pieces.cuesOf(player));
-        player.removeBar(0);
-        Check.sameText("a bar fewer", "0:0-0 3:3-0 1:1-0", Pieces.cuesOf(player));
-        player.undo();
-        player.undo();
-        player.undo();
-        Check.sameText("undone", "5:5-0 0:0-0 4:4-0 5:5-0 3:3-0 1:1-0", Pieces.cuesOf(player));
-        Check.same("times undone too", 3000000, player.count(5));
-    }
-
-    private static void promise10Load() {
+    private static void promise10() {
+        Doc.says(10, "Adds the bars in the buffer behind the last one, each with an accent on its first beat alone, and clears the "
+            + "buffer.");
         TempoPlayer player = new TempoPlayer();
         player.addBar(7, 7);
         Pieces.write(player, "3d4r900;12p20000;1d8;12d1r100p1;10r60000");
-        Check.same("load", 6, player.load());
+        player.load();
         Check.same("the buffer is clear", 0, player.clearInput());
+        Check.sameText("bar 0", "7 7 0 0 1 0", Pieces.barOf(player, 0));
         Check.sameText("bar 1", "3 4 900 0 1 7", Pieces.barOf(player, 1));
         Check.sameText("bar 2", "12 1 0 20000 1 10", Pieces.barOf(player, 2));
         Check.sameText("bar 3", "1 8 0 0 1 22", Pieces.barOf(player, 3));
@@ -296,60 +470,35 @@ public final class PieceTest {
         Check.same("one change", 2, player.count(10));
         Check.same("undone", 1, player.undo());
         Check.same("bars", 1, player.count(0));
-        Check.same("the buffer is no part of the state", 0, player.clearInput());
+        Check.same("the buffer does not come back", 0, player.clearInput());
+
+        Doc.says(10, "Returns the number of bars then.");
+        new Trial(() -> Pieces.written("12"), "load").answers(1);
+        new Trial(() -> Pieces.written("1;2;3"), "load").answers(3);
+        TempoPlayer many = Pieces.written("1;1;1;1;1;1;1;1;1;1;1;1;1;1;1;1;1;1;1;1;1;1;1;12");
+        Check.same("24 bars of one text", 24, many.load());
+        Check.sameText("the last one", "12 1 0 0 1 23", Pieces.barOf(many, 23));
     }
 
     private static void promise10Refused() {
-        String[] texts = {"", "1;", ";1", "0", "13", "1r9", "1r99", "1r99;1", "1d", "1r", "1p", "1d9", "1 ", "1;1x", "1p2d3"};
+        Doc.says(10, "Throws `IllegalArgumentException` if the buffer is not a complete text");
+        String[] texts = {"", "1;", ";1", "0", "13", "1r9", "1r99", "1r99;1", "1d", "1r", "1p", "1d9", "1 ", "1;1x", "1p2d3", "01",
+            "1;;1", "12d8r60000p20001", "12d8r60001p20000", "1;1d", "1".repeat(60), "1;".repeat(30)};
         for (String text : texts) {
-            TempoPlayer player = new TempoPlayer();
-            Pieces.write(player, text);
-            Check.refused("load of " + text, player, Pieces.ARGUMENT, player::load);
-            Check.same("the buffer stays", text.length(), player.clearInput());
+            new Trial(() -> Pieces.written(text), "load").refused(Pieces.ARGUMENT);
         }
-        TempoPlayer player = Pieces.bars(22);
-        Pieces.write(player, "1;1;1");
-        Check.refused("25 bars", player, Pieces.STATE, player::load);
-        Pieces.write(player, ";");
-        Check.refused("25 bars, not complete", player, Pieces.ARGUMENT, player::load);
-        player.clearInput();
-        Pieces.write(player, "2;3");
-        Check.same("24 bars", 24, player.load());
-        Check.sameText("the last bar", "3 1 0 0 1 24", Pieces.barOf(player, 23));
-        TempoPlayer many = new TempoPlayer();
-        Pieces.write(many, "1;1;1;1;1;1;1;1;1;1;1;1;1;1;1;1;1;1;1;1;1;1;1;1;1;1;1;1;1;12");
-        Check.same("no error", 60, many.firstError());
-        Check.refused("30 bars", many, Pieces.STATE, many::load);
+
+        Doc.says(10, "Throws `IllegalStateException` if something is played, or there would be more than 24 bars");
+        new Trial(() -> writtenAfter(Pieces.bars(22), "2;3;4"), "load").refused(Pieces.STATE);
+        new Trial(() -> writtenAfter(Pieces.bars(24), "1"), "load").refused(Pieces.STATE);
+        new Trial(() -> writtenAfter(Pieces.bars(22), "2;3"), "load").answers(24);
+        new Trial(() -> Pieces.written("1;".repeat(24) + "1"), "load").refused(Pieces.STATE);
+        new Trial(() -> Pieces.written("1;".repeat(29) + "12"), "load").refused(Pieces.STATE);
+        new Trial(() -> writtenAfter(Pieces.playing(), "4"), "load").refused(Pieces.STATE);
     }
 
-    private static void whilePlaying() {
-        TempoPlayer player = Pieces.of("4;4");
-        player.mark(0, 600, false);
-        player.cue(0, 0, 0);
-        Pieces.write(player, "3");
-        player.start(1, 0, 100);
-        Check.refused("begin", player, Pieces.STATE, player::begin);
-        Check.refused("addBar", player, Pieces.STATE, () -> player.addBar(1, 1));
-        Check.refused("addBar, wrong", player, Pieces.ARGUMENT, () -> player.addBar(1, 0));
-        Check.refused("setBar", player, Pieces.STATE, () -> player.setBar(0, 0, 2));
-        Check.refused("setBar, wrong value", player, Pieces.ARGUMENT, () -> player.setBar(0, 0, 0));
-        Check.refused("setBar, no bar", player, Pieces.INDEX, () -> player.setBar(2, 0, 0));
-        Check.refused("removeBar", player, Pieces.STATE, () -> player.removeBar(0));
-        Check.refused("removeBar, no bar", player, Pieces.INDEX, () -> player.removeBar(2));
-        Check.refused("mark", player, Pieces.STATE, () -> player.mark(0, 600, true));
-        Check.refused("mark, wrong", player, Pieces.ARGUMENT, () -> player.mark(288, 600, true));
-        Check.refused("removeMark", player, Pieces.STATE, () -> player.removeMark(0));
-        Check.refused("removeMark, no mark", player, Pieces.INDEX, () -> player.removeMark(1));
-        Check.refused("cue", player, Pieces.STATE, () -> player.cue(0, 0, 0));
-        Check.refused("cue, wrong", player, Pieces.ARGUMENT, () -> player.cue(0, 0, 5001));
-        Check.refused("cue, no beat", player, Pieces.INDEX, () -> player.cue(8, 0, 5001));
-        Check.refused("removeCue", player, Pieces.STATE, () -> player.removeCue(0));
-        Check.refused("removeCue, no cue", player, Pieces.INDEX, () -> player.removeCue(1));
-        Check.refused("load", player, Pieces.STATE, player::load);
-        player.append('d');
-        Check.refused("load, not complete", player, Pieces.ARGUMENT, player::load);
-        Check.same("nothing was recorded", 3, player.count(10));
-        player.stop();
-        Check.same("and then it goes on", 2, player.begin());
+    private static TempoPlayer writtenAfter(TempoPlayer player, String text) {
+        Pieces.write(player, text);
+        return player;
     }
 }

@@ -29,7 +29,7 @@ public final class RandomRunsTest {
         for (long seed = first; seed < first + runs; seed++) {
             new RandomRunsTest(seed).run(seed);
         }
-        for (String call : Model.CALLS) {
+        for (String call : Calls.NAMES) {
             Check.isTrue(call + " is answered in some run", ANSWERED.contains(call));
         }
         Check.same("pairs of a call and what it throws in some run", 49, THROWN.size());
@@ -65,9 +65,9 @@ public final class RandomRunsTest {
             if (chance < 12) {
                 return "addBar";
             }
-            return chance < 16 ? "setBar" : Model.CALLS[random.nextInt(Model.CALLS.length)];
+            return chance < 16 ? "setBar" : Calls.NAMES[random.nextInt(Calls.NAMES.length)];
         }
-        return chance < 25 ? "advance" : chance < 40 ? "playing" : Model.CALLS[random.nextInt(Model.CALLS.length)];
+        return chance < 25 ? "advance" : chance < 40 ? "playing" : Calls.NAMES[random.nextInt(Calls.NAMES.length)];
     }
 
     private long[] arguments(String name) {
@@ -193,54 +193,9 @@ public final class RandomRunsTest {
 
     private Object answer(String name, long[] a) {
         try {
-            return given(name, a);
+            return Calls.on(player, name, a);
         } catch (RuntimeException e) {
             return e.getClass();
-        }
-    }
-
-    private long given(String name, long[] a) {
-        int x = a.length > 0 ? (int) a[0] : 0;
-        int y = a.length > 1 ? (int) a[1] : 0;
-        int z = a.length > 2 ? (int) a[2] : 0;
-        switch (name) {
-            case "begin": return player.begin();
-            case "addBar": return player.addBar(x, y);
-            case "setBar": return player.setBar(x, y, z);
-            case "removeBar": return player.removeBar(x);
-            case "mark": return player.mark(x, y, z == 1);
-            case "removeMark": return player.removeMark(x);
-            case "cue": return player.cue(x, y, z);
-            case "removeCue": return player.removeCue(x);
-            case "load": return player.load();
-            case "undo": return player.undo();
-            case "keep": return player.keep(x);
-            case "back": return player.back(x);
-            case "append": return player.append(x);
-            case "clearInput": return player.clearInput();
-            case "firstError": return player.firstError();
-            case "start": return player.start(x, y, z);
-            case "advance": return player.advance(x);
-            case "stop": return player.stop();
-            default: return givenMore(name, a, x, y, z);
-        }
-    }
-
-    private long givenMore(String name, long[] a, int x, int y, int z) {
-        switch (name) {
-            case "playing": return player.playing(x);
-            case "bar": return player.bar(x, y);
-            case "beat": return player.beat(x, y);
-            case "click": return player.click(x, y);
-            case "tempo": return player.tempo(x, y);
-            case "cueAt": return player.cueAt(x, y);
-            case "at": return player.at(a[0], y);
-            case "count": return player.count(x);
-            case "bestSpeed": return player.bestSpeed(x, a[1]);
-            case "rubberFor": return player.rubberFor(x, a[1]);
-            case "ifMark": return player.ifMark(x, y, z);
-            case "meanTempo": return Double.doubleToLongBits(player.meanTempo());
-            default: return player.digest();
         }
     }
 }
