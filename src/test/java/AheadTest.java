@@ -1,6 +1,7 @@
 import java.math.BigInteger;
 import java.util.ArrayList;
 import java.util.List;
+import java.util.function.Supplier;
 
 /** Promises 28 to 32: what would be; nothing changes by it. */
 public final class AheadTest {
@@ -22,16 +23,6 @@ public final class AheadTest {
     /** 1600 ms; 500 from bar 1 on. */
     private static TempoPlayer usual() {
         return Pieces.of("2d2p100;1");
-    }
-
-    private static TempoPlayer longest() {
-        TempoPlayer player = new TempoPlayer();
-        for (int bar = 0; bar < 24; bar++) {
-            player.addBar(1, 8);
-            player.setBar(bar, 2, 60000);
-            player.setBar(bar, 3, 20000);
-        }
-        return player;
     }
 
     private static void changesNothing(String call, long... arguments) {
@@ -73,8 +64,8 @@ public final class AheadTest {
             best.answers(1, pair[0], pair[1]);
         }
         new Trial(() -> Pieces.of("12r100"), "bestSpeed", 0, 74626).answers(134);
-        new Trial(AheadTest::longest, "bestSpeed", 0, 1000000000).answers(192);
-        new Trial(AheadTest::longest, "bestSpeed", 0, 1).answers(200);
+        new Trial(Pieces::longest, "bestSpeed", 0, 1000000000).answers(192);
+        new Trial(Pieces::longest, "bestSpeed", 0, 1).answers(200);
     }
 
     private static void promise28Refused() {
@@ -109,7 +100,7 @@ public final class AheadTest {
 
         Doc.says(29, "`target`: the wanted end of the piece, 1 to 1000000000");
         new Trial(Pieces::rich, "rubberFor", 0, 1).range(1, 1, 1000000000, Pieces.ARGUMENT);
-        new Trial(AheadTest::longest, "rubberFor", 23, 1000000000).answers(100);
+        new Trial(Pieces::longest, "rubberFor", 23, 1000000000).answers(100);
 
         Doc.says(29, "Returns the rubber length, 100 to 60000, for which the end of the piece is not less than the target, the least one; "
             + "NONE if there is none.");
@@ -121,7 +112,6 @@ public final class AheadTest {
             one.answers(1, pair[0], pair[1]);
         }
         TempoPlayer many = Pieces.of("1r60000p20000;1r60000p20000;1r60000p20000;1");
-        many.keep(0);
         for (int bar = 4; bar < 16; bar++) {
             many.addBar(1, 1);
             many.setBar(bar, 2, 60000);
@@ -171,7 +161,7 @@ public final class AheadTest {
 
         Doc.says(30, "Returns the time.");
         new Trial(() -> Pieces.of("1"), "ifMark", 0, 0, 200).answers(0);
-        new Trial(AheadTest::longest, "ifMark", 23, 287, 200).answers(1840000000L);
+        new Trial(Pieces::longest, "ifMark", 23, 287, 200).answers(1840000000L);
         TempoPlayer slow = Pieces.full();
         slow.begin();
         for (int bar = 0; bar < 24; bar++) {
@@ -273,22 +263,22 @@ public final class AheadTest {
         Doc.says(32, "The values are, in this order: count for 0 to 11; playing for 0 to 6; for each bar its properties 0 to 5; for each "
             + "beat its properties 2 to 6; for each mark its properties 0 to 2; for each cue its properties 0 to 4; meanTempo as "
             + "Double.doubleToLongBits; the length of the input buffer and each of its character codes.");
-        sameDigest("rich", Pieces.rich(), "3d");
-        sameDigest("playing", Pieces.playing(), "3d");
-        TempoPlayer over = Pieces.playing();
-        over.advance(60000);
-        sameDigest("over", over, "3d");
-        sameDigest("full", Pieces.full(), "1".repeat(60));
-        sameDigest("full, playing", Pieces.fullPlaying(), "1".repeat(60));
-        sameDigest("input", Pieces.written("x ~1"), "x ~1");
-        sameDigest("longest", longest(), "");
+        sameDigest("rich", Pieces::rich, "3d");
+        sameDigest("playing", Pieces::playing, "3d");
+        sameDigest("over", AheadTest::over, "3d");
+        sameDigest("full", Pieces::full, "1".repeat(60));
+        sameDigest("full, playing", Pieces::fullPlaying, "1".repeat(60));
+        sameDigest("input", () -> Pieces.written("x ~1"), "x ~1");
+        sameDigest("longest", Pieces::longest, "");
+        sameDigest("cleared", AheadTest::cleared, "");
         for (int pause = 1; pause <= 20000; pause += 99) {
-            sameDigest("pause " + pause, Pieces.of("1d3r" + (100 + 2 * pause) + "p" + pause), "");
+            String text = "1d3r" + (100 + 2 * pause) + "p" + pause;
+            sameDigest(text, () -> Pieces.of(text), "");
         }
         String[] texts = {"12r100", "1r60000p20000", "1", "2", "1r500;1", "1p500", "8", "1r468p1", "1r234", "1r937p1", "1r60000",
             "2r60000", "4r60000", "8r60000", "4r1875", "2r1875", "1r1875", "1r60000p1", "2r60000p1", "4r1875p1", "1r59999"};
         for (String text : texts) {
-            sameDigest(text, Pieces.of(text), "");
+            sameDigest(text, () -> Pieces.of(text), "");
         }
 
         Doc.says(32, "Returns the hash.");
@@ -299,8 +289,21 @@ public final class AheadTest {
         Check.same("with input", 3001590322010216039L, one.digest());
     }
 
-    private static void sameDigest(String what, TempoPlayer player, String input) {
-        Check.same("digest of " + what, hashOf(values(player, input)).longValue(), player.digest());
+    private static TempoPlayer over() {
+        TempoPlayer player = Pieces.playing();
+        player.advance(60000);
+        return player;
+    }
+
+    private static TempoPlayer cleared() {
+        TempoPlayer player = Pieces.full();
+        player.begin();
+        player.clearInput();
+        return player;
+    }
+
+    private static void sameDigest(String what, Supplier<TempoPlayer> maker, String input) {
+        Check.same("digest of " + what, hashOf(values(maker, input)).longValue(), maker.get().digest());
     }
 
     /** Without an overflow: as large as it becomes. */
@@ -312,18 +315,20 @@ public final class AheadTest {
         return hash;
     }
 
-    private static List<Long> values(TempoPlayer player, String input) {
+    /** Asked of players made anew, as one of them is good for 512 calls. */
+    private static List<Long> values(Supplier<TempoPlayer> maker, String input) {
         List<Long> values = new ArrayList<>();
+        TempoPlayer player = maker.get();
         for (int what = 0; what <= 11; what++) {
             values.add(player.count(what));
         }
         for (int what = 0; what <= 6; what++) {
             values.add(player.playing(what));
         }
-        of(values, player, "bar", 0, 0, 5);
-        of(values, player, "beat", 1, 2, 6);
-        of(values, player, "tempo", 2, 0, 2);
-        of(values, player, "cueAt", 3, 0, 4);
+        addAll(values, maker, "bar", player.count(0), 0, 5);
+        addAll(values, maker, "beat", player.count(1), 2, 6);
+        addAll(values, maker, "tempo", player.count(2), 0, 2);
+        addAll(values, maker, "cueAt", player.count(3), 0, 4);
         values.add(Double.doubleToLongBits(player.meanTempo()));
         values.add((long) input.length());
         for (char code : input.toCharArray()) {
@@ -332,8 +337,9 @@ public final class AheadTest {
         return values;
     }
 
-    private static void of(List<Long> values, TempoPlayer player, String call, int count, int first, int last) {
-        for (int number = 0; number < player.count(count); number++) {
+    private static void addAll(List<Long> values, Supplier<TempoPlayer> maker, String call, long count, int first, int last) {
+        for (int number = 0; number < count; number++) {
+            TempoPlayer player = maker.get();
             for (int what = first; what <= last; what++) {
                 values.add(Calls.on(player, call, number, what));
             }
@@ -342,10 +348,10 @@ public final class AheadTest {
 
     private static void promise32Overflow() {
         Doc.says(32, "in long arithmetic with overflow");
-        BigInteger unbounded = hashOf(values(new TempoPlayer(), ""));
+        BigInteger unbounded = hashOf(values(TempoPlayer::new, ""));
         Check.isTrue("even a new object's does not fit", unbounded.bitLength() > 64);
         Check.same("its lowest 64 bits", unbounded.longValue(), new TempoPlayer().digest());
-        BigInteger full = hashOf(values(Pieces.full(), "1".repeat(60)));
+        BigInteger full = hashOf(values(Pieces::full, "1".repeat(60)));
         Check.isTrue("a full one's is far beyond", full.bitLength() > 7000);
         Check.same("its lowest 64 bits", full.longValue(), Pieces.full().digest());
     }
@@ -355,9 +361,5 @@ public final class AheadTest {
         long empty = new TempoPlayer().digest();
         Check.same("one character", (empty + 1) * 31 + '~', Pieces.written("~").digest());
         Check.same("two", ((empty + 2) * 31 + ' ') * 31 + '~', Pieces.written(" ~").digest());
-        TempoPlayer cleared = Pieces.full();
-        cleared.begin();
-        cleared.clearInput();
-        sameDigest("cleared", cleared, "");
     }
 }

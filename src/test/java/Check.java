@@ -16,6 +16,23 @@ final class Check {
     private Check() {
     }
 
+    static {
+        Thread watch = new Thread(Check::endLateTest);
+        watch.setDaemon(true);
+        watch.start();
+    }
+
+    /** So that a call that does not end makes the test fail. */
+    private static void endLateTest() {
+        try {
+            Thread.sleep(300000);
+        } catch (InterruptedException e) {
+            return;
+        }
+        System.out.println(about + "the test takes more than five minutes");
+        Runtime.getRuntime().halt(1);
+    }
+
     static void about(String words) {
         about = words;
     }

@@ -15,35 +15,23 @@ public final class HistoryTest {
 
     private static void whatIsRecorded() {
         Doc.says("History and images", "A change is a call of one of the methods from begin() to load() in this document, or of back()");
-        Object[][] changes = {{"begin"}, {"addBar", 1, 1}, {"setBar", 0, 0, 3}, {"removeBar", 0}, {"mark", 0, 1200, 0},
-            {"removeMark", 0}, {"cue", 0, 0, 0}, {"removeCue", 0}, {"load"}, {"back", 1}};
-        for (Object[] change : changes) {
+        for (Trial change : Trial.changes(HistoryTest::ready)) {
             TempoPlayer player = ready();
             long before = player.digest();
-            String name = (String) change[0];
-            Calls.on(player, name, numbers(change));
-            Check.same("states after " + name, 8, player.count(10));
+            change.on(player);
+            Check.same("states after " + change.name(), 8, player.count(10));
             player.clearInput();
-            Check.same("undo of " + name, 7, player.undo());
-            Pieces.write(player, "4");
-            Check.same("all as before " + name, before, player.digest());
+            Check.same("undo of " + change.name(), 7, player.undo());
+            Pieces.write(player, "3d4");
+            Check.same("all as before " + change.name(), before, player.digest());
         }
     }
 
     /** Seven states, and a whole text in the buffer. */
     private static TempoPlayer ready() {
         TempoPlayer player = Pieces.rich();
-        player.clearInput();
-        Pieces.write(player, "4");
+        player.append('4');
         return player;
-    }
-
-    private static long[] numbers(Object[] call) {
-        long[] numbers = new long[call.length - 1];
-        for (int index = 0; index < numbers.length; index++) {
-            numbers[index] = (Integer) call[index + 1];
-        }
-        return numbers;
     }
 
     private static void whatIsNotRecorded() {
@@ -254,7 +242,9 @@ public final class HistoryTest {
         player.back(0);
         player.setBar(0, 0, 12);
         player.begin();
+        Pieces.write(player, "3d");
         Check.same("the image stays", 2, player.back(0));
+        Check.same("the buffer too", 2, player.clearInput());
         Check.sameText("bars", "3 4", Pieces.barsOf(player, 0));
         Check.sameText("cues", "6:100-200", Pieces.cuesOf(player));
 

@@ -4,6 +4,8 @@ import java.util.List;
 /** All that can be seen of a player: the state, what it plays from here on, the history and the images. */
 final class Look {
     private static final int[] STEPS = {1, 16, 233, 250, 1000, 60000};
+    /** More than a history has. */
+    private static final int MOST_STATES = 10;
 
     private Look() {
     }
@@ -15,7 +17,7 @@ final class Look {
         seen.add((long) player.firstError());
         seen.add((long) player.clearInput());
         playOn(player, seen);
-        while (player.count(10) > 0) {
+        for (int state = 0; state < MOST_STATES && player.count(10) > 0; state++) {
             seen.add((long) player.undo());
             seen.add(player.digest());
         }

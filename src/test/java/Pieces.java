@@ -63,6 +63,17 @@ final class Pieces {
         return player;
     }
 
+    /** The longest piece that there is: 24 bars of one beat, a minute long, with the longest pauses. */
+    static TempoPlayer longest() {
+        TempoPlayer player = new TempoPlayer();
+        for (int bar = 0; bar < 24; bar++) {
+            player.addBar(1, 8);
+            player.setBar(bar, 2, 60000);
+            player.setBar(bar, 3, 20000);
+        }
+        return player;
+    }
+
     static TempoPlayer fullPlaying() {
         TempoPlayer player = full();
         player.start(23, 8, 200);

@@ -74,21 +74,11 @@ public final class PlayingTest {
         TempoPlayer slow = started("1;1r60000p20000", 1, 8, 50);
         Check.same("the end of a long bar", 1120000000, slow.playing(1));
         Check.same("a click late in it", 120000000L * 8, clickAfter(slow, 15, 1));
-        TempoPlayer greatest = longest();
+        TempoPlayer greatest = Pieces.longest();
         Check.same("the greatest played end", 4800000000L, greatest.start(0, 8, 50));
+        Check.same("the same while it plays", 4800000000L, greatest.playing(1));
         Check.same("the greatest played time of a click", 960000000L + 2 * 1840000000L + 105000000L,
             clickAfter(greatest, 78, 50001));
-    }
-
-    private static TempoPlayer longest() {
-        TempoPlayer player = new TempoPlayer();
-        for (int bar = 0; bar < 24; bar++) {
-            player.addBar(1, 8);
-            player.setBar(bar, 2, 60000);
-            player.setBar(bar, 3, 20000);
-        }
-        player.cue(23, 479, 5000);
-        return player;
     }
 
     private static long clickAfter(TempoPlayer player, int minutes, int milliseconds) {
@@ -147,9 +137,14 @@ public final class PlayingTest {
         player.start(0, 0, 150);
         Check.same("from bar 0 the earlier one too", 665972, player.playing(3));
         Check.same("five clicks and three cues", 8, player.advance(1000));
-        TempoPlayer late = longest();
+        TempoPlayer late = Pieces.longest();
+        late.cue(23, 479, 5000);
         late.start(0, 8, 50);
         Check.same("the latest cue of all", 960000000L + 2 * 1899875000L - 5000000, late.playing(3));
+        clickAfter(late, 79, 14750);
+        Check.same("not heard up to it", 0, late.playing(6));
+        late.advance(1);
+        Check.same("heard over it", 1, late.playing(6));
 
         Doc.says("Playing", "minus its lead (which the speed does not change)");
         int[] speeds = {50, 100, 200};
@@ -200,7 +195,7 @@ public final class PlayingTest {
         player.advance(11198);
         Check.same("the speed does not change it", 11199000, player.playing(0));
         Check.same("nor the count-in the clock that stop tells", 11199000, player.stop());
-        TempoPlayer longest = longest();
+        TempoPlayer longest = Pieces.longest();
         longest.start(0, 8, 50);
         for (int minute = 0; minute < 79; minute++) {
             longest.advance(60000);
@@ -275,18 +270,13 @@ public final class PlayingTest {
 
     private static void noChanges() {
         Doc.says("Playing", "While something is played, the piece cannot be changed.");
-        Object[][] changes = {{"begin"}, {"addBar", 1, 1}, {"setBar", 0, 0, 3}, {"removeBar", 0}, {"mark", 1, 1200, 0},
-            {"removeMark", 0}, {"cue", 0, 0, 0}, {"removeCue", 0}, {"load"}, {"undo"}, {"back", 1}};
-        for (Object[] change : changes) {
-            long[] numbers = new long[change.length - 1];
-            for (int index = 0; index < numbers.length; index++) {
-                numbers[index] = (Integer) change[index + 1];
-            }
-            new Trial(PlayingTest::playingWithAText, (String) change[0], numbers).refused(Pieces.STATE);
+        for (Trial change : Trial.changes(PlayingTest::playingWithAText)) {
+            change.refused(Pieces.STATE);
             TempoPlayer stopped = playingWithAText();
             stopped.stop();
-            Check.isTrue(change[0] + " after stop", Check.thrownBy(() -> Calls.on(stopped, (String) change[0], numbers)) == null);
+            Check.isTrue(change.name() + " after stop", Check.thrownBy(() -> change.on(stopped)) == null);
         }
+        new Trial(PlayingTest::playingWithAText, "undo").refused(Pieces.STATE);
         TempoPlayer player = Pieces.playing();
         player.keep(0);
         player.clearInput();
@@ -331,19 +321,29 @@ public final class PlayingTest {
         Trial start = new Trial(Pieces::rich, "start", 1, 2, 150);
         Doc.says(17, "Starts playing; the clock is 0.");
         TempoPlayer player = usual();
-        for (int time = 0; time < 3; time++) {
-            player.start(0, 1, 100);
-            Check.same("something is played", 1, player.count(9));
-            long[] due = {0, 2100000, 0, TempoPlayer.NONE, 0, 0, 0};
+        player.cue(0, 120, 0);
+        player.cue(2, 0, 0);
+        int[] stopped = {1, 251, 700, 1599};
+        for (int milliseconds : stopped) {
+            player.start(0, 0, 100);
+            player.advance(milliseconds);
+            player.stop();
+            player.start(0, 0, 100);
+            long[] due = {0, 1600000, 0, 125000, 0, 0, 0};
             for (int what = 0; what <= 6; what++) {
-                Check.same("playing(" + what + ")", due[what], player.playing(what));
+                Check.same("playing(" + what + ") again after " + milliseconds, due[what], player.playing(what));
             }
-            player.advance(time == 0 ? 700 : 60000);
-            if (time == 0) {
-                player.stop();
-            }
+            Check.same("something is played", 1, player.count(9));
+            Check.same("all is heard again", 7, player.advance(1599));
+            Check.same("clicks", 5, player.playing(4));
+            Check.same("loud ones", 2, player.playing(5));
+            Check.same("cues", 2, player.playing(6));
+            player.advance(1);
+            player.start(0, 1, 100);
+            player.advance(milliseconds);
+            player.stop();
         }
-        Check.same("it is no change", 1, player.count(10));
+        Check.same("it is no change", 3, player.count(10));
 
         Doc.says(17, "`bar`: the bar");
         start.range(0, 0, 2, Pieces.INDEX);
@@ -444,7 +444,7 @@ public final class PlayingTest {
         steps.advance(7);
         steps.advance(600);
         Check.same("stop", 607000, steps.stop());
-        TempoPlayer longest = longest();
+        TempoPlayer longest = Pieces.longest();
         longest.start(0, 8, 50);
         for (int minute = 0; minute < 79; minute++) {
             longest.advance(60000);

@@ -158,7 +158,7 @@ public final class RefusedTest {
         for (int bar = 0; bar < 9; bar++) {
             player.addBar(2, 2);
         }
-        while (player.count(10) > 0) {
+        for (int state = 0; state < 8; state++) {
             player.undo();
         }
         player.start(0, 0, 100);

@@ -203,6 +203,14 @@ public final class TermsTest {
         Check.sameText("a next mark that holds", "1200 1000 1250 1500 1750 2000 300", Pieces.beatsOf(up, 2));
         up.mark(1, 1000, false);
         Check.sameText("one that is not gradual", "1200 1000 1000 1000 1000 2000 300", Pieces.beatsOf(up, 2));
+        TempoPlayer behind = Pieces.of("4");
+        behind.mark(2, 1000, true);
+        Check.sameText("no next mark", "1200 1200 1000 1000", Pieces.beatsOf(behind, 2));
+        behind.mark(4, 2000, false);
+        Check.sameText("a next mark at the end of the piece", "1200 1200 1000 1500", Pieces.beatsOf(behind, 2));
+        behind.removeMark(1);
+        behind.mark(287, 3850, true);
+        Check.sameText("a next mark far behind the piece", "1200 1200 1000 1010", Pieces.beatsOf(behind, 2));
 
         Doc.says("Tempo", "where this quotient is truncated toward 0; otherwise it is v");
         TempoPlayer down = Pieces.of("7");
@@ -295,12 +303,7 @@ public final class TermsTest {
         Check.same("without bars", 0, new TempoPlayer().count(5));
         Check.same("without a pause", 500000, Pieces.of("1").count(5));
         Check.same("with one", 20500000, Pieces.of("1p20000").count(5));
-        TempoPlayer longest = new TempoPlayer();
-        for (int bar = 0; bar < 24; bar++) {
-            longest.addBar(1, 1);
-            longest.setBar(bar, 2, 60000);
-            longest.setBar(bar, 3, 20000);
-        }
+        TempoPlayer longest = Pieces.longest();
         Check.same("the greatest", 1920000000L, longest.count(5));
         Check.same("the last beat", 1840000000L, longest.beat(23, 4));
     }
@@ -386,8 +389,8 @@ public final class TermsTest {
         Check.same("with more beats all stay", 6, player.count(3));
         player.setBar(0, 0, 2);
         Check.same("and with as many as before", 6, player.count(3));
-        while (player.count(0) > 0) {
-            player.removeBar(0);
+        for (int bar = 2; bar >= 0; bar--) {
+            player.removeBar(bar);
         }
         Check.same("without bars there is none", 0, player.count(3));
         TempoPlayer full = Pieces.full();

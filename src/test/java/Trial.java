@@ -14,6 +14,22 @@ final class Trial {
         this.good = good;
     }
 
+    /** One of each change, for players with 3 bars, a mark, a cue, something in image 1 and a whole text. */
+    static Trial[] changes(Supplier<TempoPlayer> maker) {
+        return new Trial[] {new Trial(maker, "begin"), new Trial(maker, "addBar", 1, 1), new Trial(maker, "setBar", 0, 0, 2),
+            new Trial(maker, "removeBar", 0), new Trial(maker, "mark", 0, 1200, 0), new Trial(maker, "removeMark", 0),
+            new Trial(maker, "cue", 0, 0, 0), new Trial(maker, "removeCue", 0), new Trial(maker, "load"),
+            new Trial(maker, "back", 1)};
+    }
+
+    long on(TempoPlayer player) {
+        return Calls.on(player, name, good);
+    }
+
+    String name() {
+        return name;
+    }
+
     private long[] with(int argument, long value) {
         long[] changed = good.clone();
         changed[argument] = value;
@@ -22,7 +38,7 @@ final class Trial {
 
     /** The call as it is. */
     void answers(long due) {
-        Check.same(name + Arrays.toString(good), due, Calls.on(maker.get(), name, good));
+        Check.same(name + Arrays.toString(good), due, on(maker.get()));
     }
 
     void answers(int argument, long value, long due) {
@@ -40,7 +56,7 @@ final class Trial {
 
     /** The call as it is. */
     void refused(Class<?> due) {
-        Check.refusedOn(maker, name + Arrays.toString(good), due, player -> Calls.on(player, name, good));
+        Check.refusedOn(maker, name + Arrays.toString(good), due, this::on);
     }
 
     void refuses(int argument, Class<?> due, long... values) {
