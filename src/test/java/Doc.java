@@ -81,9 +81,20 @@ final class Doc {
         Check.close();
     }
 
+    /** The lines of the class in "The public face". */
+    static List<String> face() {
+        List<String> lines = lines();
+        int first = lines.indexOf("```java") + 1;
+        return lines.subList(first, first + lines.subList(first, lines.size()).indexOf("```"));
+    }
+
     private static Map<String, List<String>> read() {
+        return sections(lines());
+    }
+
+    private static List<String> lines() {
         try {
-            return sections(Files.readAllLines(DOC));
+            return Files.readAllLines(DOC);
         } catch (IOException e) {
             throw new UncheckedIOException(e);
         }

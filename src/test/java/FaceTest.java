@@ -2,42 +2,53 @@ import java.lang.reflect.Constructor;
 import java.lang.reflect.Field;
 import java.lang.reflect.Method;
 import java.lang.reflect.Modifier;
+import java.util.List;
 import java.util.Set;
 import java.util.TreeSet;
+import java.util.regex.Matcher;
+import java.util.regex.Pattern;
 
 /** The public face is the document's, and nothing but it can be seen from outside. */
 public final class FaceTest {
-    private static final String A = " throws IllegalArgumentException";
-    private static final String I = " throws IndexOutOfBoundsException";
-    private static final String S = " throws IllegalStateException";
-    private static final String AS = A + ", IllegalStateException";
-    private static final String IA = I + ", IllegalArgumentException";
-    private static final String IS = I + ", IllegalStateException";
-    private static final String IAS = IA + ", IllegalStateException";
-
-    private static final Set<String> FACE = Set.of(
-        "int begin()" + S, "int addBar(int, int)" + AS, "int setBar(int, int, int)" + IAS,
-        "int removeBar(int)" + IS, "int mark(int, int, boolean)" + AS, "int removeMark(int)" + IS,
-        "int cue(int, int, int)" + IAS, "int removeCue(int)" + IS, "int load()" + AS, "int undo()" + S,
-        "int keep(int)" + I, "int back(int)" + IS, "int append(int)" + AS, "int clearInput()",
-        "int firstError()", "long start(int, int, int)" + IAS, "int advance(int)" + AS, "long stop()" + S,
-        "long playing(int)" + A, "int bar(int, int)" + IA, "long beat(int, int)" + IA,
-        "long click(int, int)" + I, "int tempo(int, int)" + IA, "long cueAt(int, int)" + IA,
-        "int at(long, int)" + A, "long count(int)" + A, "int bestSpeed(int, long)" + IA,
-        "int rubberFor(int, long)" + IA, "long ifMark(int, int, int)" + IA, "double meanTempo()",
-        "long digest()");
+    private static final Pattern METHOD = Pattern.compile("    public (\\w+ \\w+)\\(([^()]*)\\)( throws [\\w, ]+)?;");
 
     public static void main(String[] args) throws NoSuchFieldException {
         Doc.says("The constants", "`NONE = -1`: There is no such number.");
         Check.same("NONE", -1, TempoPlayer.NONE);
         Check.isTrue("the class is public and final",
             (TempoPlayer.class.getModifiers() & (Modifier.PUBLIC | Modifier.FINAL)) == (Modifier.PUBLIC | Modifier.FINAL));
-        methods();
+        Set<String> due = methodsOfTheDocument();
+        methods(due);
+        calls(due);
         fieldsAndConstructors();
         Doc.close(FaceTest.class);
     }
 
-    private static void methods() {
+    /** Its face has the class, the constant, the constructor and the methods, a line each. */
+    private static Set<String> methodsOfTheDocument() {
+        List<String> lines = Doc.face();
+        Check.sameText("the class", "public final class TempoPlayer {", lines.get(0));
+        Check.sameText("the constant", "    public static final int NONE = -1;", lines.get(1));
+        Check.sameText("the constructor", "    public TempoPlayer();", lines.get(2));
+        Check.sameText("the end", "}", lines.get(lines.size() - 1));
+        Set<String> methods = new TreeSet<>();
+        for (String line : lines.subList(3, lines.size() - 1)) {
+            Matcher method = METHOD.matcher(line);
+            Check.isTrue(line + " is a method", method.matches());
+            String types = method.group(2).replaceAll(" \\w+(?=,|$)", "");
+            methods.add(method.group(1) + "(" + types + ")" + (method.group(3) == null ? "" : method.group(3)));
+        }
+        return methods;
+    }
+
+    /** So that the other tests leave out no call. */
+    private static void calls(Set<String> due) {
+        Set<String> names = new TreeSet<>();
+        due.forEach(method -> names.add(method.substring(method.indexOf(' ') + 1, method.indexOf('('))));
+        Check.sameText("the calls that tests make", names.toString(), new TreeSet<>(List.of(Calls.NAMES)).toString());
+    }
+
+    private static void methods(Set<String> due) {
         Set<String> seen = new TreeSet<>();
         Set<String> hidden = new TreeSet<>();
         Set<String> open = new TreeSet<>();
@@ -49,7 +60,7 @@ public final class FaceTest {
                 seen.add((Modifier.isPublic(method.getModifiers()) ? "" : "not public: ") + face(method));
             }
         }
-        Check.isTrue("the methods of the face: " + difference(seen, FACE) + difference(FACE, seen), seen.equals(FACE));
+        Check.isTrue("the methods of the face: " + difference(seen, due) + difference(due, seen), seen.equals(due));
         hidden.retainAll(open);
         Check.isTrue("private methods with names of public ones: " + hidden, hidden.isEmpty());
     }
